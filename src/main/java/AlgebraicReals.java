@@ -186,6 +186,12 @@ public final class AlgebraicReals {
         if (isNone(a) || isNone(b)) return -2;
         Real x = numbers[a], y = numbers[b];
         if (x.least.same(y.least)) return Integer.compare(x.place, y.place);
+        if (x.least.deg == 1 && y.least.deg == 1) {
+            // -c / d is less than -g / h as g d is less than c h.
+            v.times(x.least.c[0], y.least.c[1]);
+            w.times(y.least.c[0], x.least.c[1]);
+            return w.order(v);
+        }
         if (x.least.deg == 1) return -against(y, x);
         if (y.least.deg == 1) return against(x, y);
         for (int e = COARSEST; e <= FINEST; e *= 2) {
@@ -284,12 +290,11 @@ public final class AlgebraicReals {
             u.over(w, x.least.c[1], v);
         } else {
             // The interval is so fine that at most one step of the last digit lies in it.
-            int e = scale.size() + 2;
-            zones.approach(x, e, zones.x);
-            w.times(zones.x[1], scale);
-            u.lower(w, e, false);
-            w.times(zones.x[0], scale);
-            v.lower(w, e, false);
+            zones.refine(x, scale.size());
+            w.times(x.hi, scale);
+            u.lower(w, x.e, false);
+            w.times(x.lo, scale);
+            v.lower(w, x.e, false);
             if (u.order(v) != 0 && !zones.isAbove(x, u, scale)) u.nudge(-1);
         }
         return texts.decimal(u, digits);
@@ -1522,7 +1527,7 @@ public final class AlgebraicReals {
             for (int i = 0; i < PRIMES.length && tried < TRIES && fewest > 2; i++) {
                 if (!split(s, PRIMES[i])) continue;
                 tried++;
-                if (pieces < fewest) {
+                if (pieces <= fewest) {
                     fewest = pieces;
                     best = PRIMES[i];
                 }
@@ -2003,10 +2008,10 @@ public final class AlgebraicReals {
         }
 
         /**
-         * Makes the interval of r, no fraction, smaller than 2^-goal. A step cuts it into 2^m and
+         * Makes the interval of r, no fraction, 2^-goal at most. A step cuts it into 2^m and
          * guesses the right one by the values at the ends; as long as that holds, m doubles.
          */
-        private void refine(Real r, int goal) {
+        void refine(Real r, int goal) {
             width.join(r.hi, r.lo, -1);
             int last = goal + width.size(), m = 1;
             if (r.e >= last) return;
