@@ -14,8 +14,8 @@ public final class AlgebraicReals {
     private static final int NUMBERS = 100, POLYNOMIALS = 30, PLACES = 12, SIZE = 120, STACK = 40;
     /** No number that can be made needs an interval this fine: two of them lie 2^-2500 apart at least. */
     private static final int FINEST = 16384, COARSEST = 32;
-    /** combine() and its like answer it when the parts found still have to be settled. */
-    private static final int PENDING = 1;
+    /** What combine() and its like answer when more is to be done: settle(), takeRoot(), takePlace(). */
+    private static final int PENDING = 1, ROOTED = 2, PLACED = 3;
     private static final int POWER = 4, ROOT = 5, MINUS = 6, TURN = 7, WHOLE = 8, HANDLE = 9;
 
     /** Primes below 2^30 without any pattern, so that roots that people think of stay apart by them. */
@@ -71,7 +71,7 @@ public final class AlgebraicReals {
         if (isNone(a) || isNone(b)) return UNKNOWN;
         if (op < 0 || op > 3) return OUTSIDE;
         int no = combine(op, numbers[a], numbers[b]);
-        if (no == PENDING) no = settle();
+        if (no == PENDING) no = settle(narrow());
         return no != 0 ? no : keep();
     }
 
@@ -79,7 +79,7 @@ public final class AlgebraicReals {
         if (isNone(a) || isNone(b)) return UNKNOWN;
         if (numbers[b].side == 0) throw new ArithmeticException();
         int no = combine(3, numbers[a], numbers[b]);
-        if (no == PENDING) no = settle();
+        if (no == PENDING) no = settle(narrow());
         return no != 0 ? no : keep();
     }
 
@@ -87,7 +87,7 @@ public final class AlgebraicReals {
         if (isNone(a)) return UNKNOWN;
         if (n < -8 || n > 8) return OUTSIDE;
         int no = raise(numbers[a], n);
-        if (no == PENDING) no = settle();
+        if (no == PENDING) no = settle(narrow());
         return no != 0 ? no : keep();
     }
 
@@ -95,12 +95,14 @@ public final class AlgebraicReals {
         if (isNone(a)) return UNKNOWN;
         if (k < 2 || k > 12) return OUTSIDE;
         int no = extract(numbers[a], k);
+        if (no == ROOTED) no = takeRoot();
         return no != 0 ? no : keep();
     }
 
     public int turn(long up, int low, boolean sine) {
         if (low < 1 || low > 120) return OUTSIDE;
         int no = circle(up, low, sine);
+        if (no == PLACED) no = takePlace();
         return no != 0 ? no : keep();
     }
 
@@ -111,7 +113,8 @@ public final class AlgebraicReals {
             fresh.copy(numbers[a]);
         } else {
             fresh.least.copy(numbers[a].least);
-            takePlace(place);
+            fresh.place = place;
+            takePlace();
         }
         return keep();
     }
@@ -121,7 +124,7 @@ public final class AlgebraicReals {
         norms.left.copy(numbers[a].least);
         norms.right.copy(told[polynomial]);
         int no = image(numbers[a], false);
-        if (no == PENDING) no = settle();
+        if (no == PENDING) no = settle(narrow());
         return no != 0 ? no : keep();
     }
 
@@ -131,14 +134,15 @@ public final class AlgebraicReals {
         simplify(told[polynomial]);
         sturm.build(norms.made);
         if (i < 0 || i >= sturm.count) return NONE;
-        int no = takeRoot(i);
+        fresh.place = i;
+        int no = takeRoot();
         return no != 0 ? no : keep();
     }
 
     public int common(int a, int b) {
         if (isNone(a) || isNone(b)) return UNKNOWN;
         int no = blend(numbers[a], numbers[b]);
-        if (no == PENDING) no = settle();
+        if (no == PENDING) no = settle(narrow());
         return no != 0 ? no : keep();
     }
 
@@ -152,6 +156,7 @@ public final class AlgebraicReals {
             if (top < taken || top - taken >= STACK) return OPEN;
             Real b = taken == 0 ? fresh : stack[top - 1];
             Real a = taken == 2 ? stack[top - 2] : b;
+            if (a == null || b == null) return OPEN;
             int no = 0;
             switch (kind) {
                 case POWER: no = raise(a, first); break;
@@ -163,13 +168,15 @@ public final class AlgebraicReals {
                     if (kind < POWER) no = combine(kind, a, b);
                     else if (!isNone(first)) fresh.copy(numbers[first]);
             }
-            if (no == PENDING) no = settle();
+            if (no == PENDING) no = settle(narrow());
+            else if (no == ROOTED) no = takeRoot();
+            else if (no == PLACED) no = takePlace();
             if (no != 0) return no;
             top -= taken;
             push(top);
             top++;
         }
-        if (top < 1) return OPEN;
+        if (top < 1 || stack[top - 1] == null) return OPEN;
         fresh.copy(stack[top - 1]);
         return keep();
     }
@@ -222,7 +229,7 @@ public final class AlgebraicReals {
         if (isNone(a) || isNone(b)) return UNKNOWN;
         Real x = numbers[a], y = numbers[b];
         if (x.least.deg * y.least.deg > most) return OPEN;
-        if (x.least.deg == 1) return 1;
+        if (x.least.deg < 2) return 1;
         if (y.least.deg % x.least.deg != 0) return 0;
         if (blend(x, y) != PENDING) return OPEN;
         // a + k b makes the field of both: it is b's own when it is no larger.
@@ -272,7 +279,7 @@ public final class AlgebraicReals {
     }
 
     public int part(int i, int what) {
-        if (i < 0 || i >= pieceCount || what < 0 || what > 1) return OUTSIDE;
+        if (i < 0 || i >= pieceCount || pieces[i] == null || what < 0 || what > 1) return OUTSIDE;
         return what == 0 ? pieces[i].deg : times[i];
     }
 
@@ -305,7 +312,7 @@ public final class AlgebraicReals {
     }
 
     public int writePart(int i) {
-        return i < 0 || i >= pieceCount ? OUTSIDE : texts.formula(pieces[i]);
+        return i < 0 || i >= pieceCount || pieces[i] == null ? OUTSIDE : texts.formula(pieces[i]);
     }
 
     public int at(int i) {
@@ -332,11 +339,11 @@ public final class AlgebraicReals {
     // ---------------------------------------------------------------- how numbers come about
 
     private boolean isNone(int a) {
-        return a < 0 || a >= count || a >= NUMBERS;
+        return a < 0 || a >= count || a >= NUMBERS || numbers[a] == null;
     }
 
     private boolean isUntold(int polynomial) {
-        return polynomial < 0 || polynomial >= toldCount || polynomial >= POLYNOMIALS;
+        return polynomial < 0 || polynomial >= toldCount || polynomial >= POLYNOMIALS || told[polynomial] == null;
     }
 
     /** Gives fresh a handle; the object that lay there is the next fresh one. */
@@ -418,7 +425,8 @@ public final class AlgebraicReals {
         norms.made.spread(a.least, k);
         sturm.build(norms.made);
         // Odd: the roots keep their order. Even: those below 0 go, and each of the others gives two.
-        return takeRoot(sturm.count + a.place - a.count);
+        fresh.place = sturm.count + a.place - a.count;
+        return ROOTED;
     }
 
     /** The sum a + k b that common() asks for. */
@@ -457,15 +465,16 @@ public final class AlgebraicReals {
             return 0;
         }
         // The cosine falls on the first half turn.
-        takePlace(half - Row.units(d, Math.min(n, d - n) + 1));
-        return 0;
+        fresh.place = half - Row.units(d, Math.min(n, d - n) + 1);
+        return PLACED;
     }
 
-    /** Makes fresh the root at a place of the least polynomial that it has already. */
-    private void takePlace(int place) {
+    /** Makes fresh the root at its place of the least polynomial that it has already. */
+    private int takePlace() {
         sturm.build(fresh.least);
-        fresh.e = sturm.locate(place, fresh.lo, fresh.hi);
+        fresh.e = sturm.locate(fresh.place, fresh.lo, fresh.hi);
         finish();
+        return 0;
     }
 
     /** What of fresh follows from its least polynomial, which sturm holds, and its interval. */
@@ -476,9 +485,9 @@ public final class AlgebraicReals {
         fresh.side = fresh.place < sturm.upTo(u, null, 0) ? -1 : 1;
     }
 
-    /** Makes fresh the i-th real root of norms.made, which sturm holds. */
-    private int takeRoot(int i) {
-        fresh.e = sturm.locate(i, fresh.lo, fresh.hi);
+    /** Makes fresh the real root of norms.made, which sturm holds, at the place that fresh has. */
+    private int takeRoot() {
+        fresh.e = sturm.locate(fresh.place, fresh.lo, fresh.hi);
         parter.run(norms.made);
         int pick = 0;
         for (int j = 0; j < parter.size; j++) {
@@ -504,6 +513,8 @@ public final class AlgebraicReals {
         int alive = (1 << parter.size) - 1;
         zones.e = COARSEST;
         for (int e = COARSEST; e <= FINEST && Integer.bitCount(alive) > 1; e *= 2) {
+            zones.approach(zones.a, e, zones.x);
+            if (zones.kind != Norms.VALUES) zones.approach(zones.b, e, zones.y);
             if (!zones.image(e)) continue;
             for (int i = 0; i < parter.size; i++) {
                 if ((alive >> i & 1) != 0 && zones.excludes(parter.found[i])) alive &= ~(1 << i);
@@ -514,9 +525,9 @@ public final class AlgebraicReals {
         return pick;
     }
 
-    /** Makes fresh the number that the zones hold, a root of one of the parts found. */
-    private int settle() {
-        Poly f = parter.found[narrow()];
+    /** Makes fresh the number that the zones hold, a root of the part picked. */
+    private int settle(int pick) {
+        Poly f = parter.found[pick];
         if (f.deg > most || f.bits() > SIZE) return OPEN;
         fresh.least.copy(f);
         if (f.deg == 1) {
@@ -525,6 +536,8 @@ public final class AlgebraicReals {
         }
         sturm.build(f);
         for (int e = Math.max(COARSEST, zones.e); e <= FINEST; e *= 2) {
+            zones.approach(zones.a, e, zones.x);
+            if (zones.kind != Norms.VALUES) zones.approach(zones.b, e, zones.y);
             if (!zones.image(e)) continue;
             if (sturm.upTo(zones.z[1], null, e) - sturm.upTo(zones.z[0], null, e) == 1) {
                 fresh.lo.copy(zones.z[0]);
@@ -575,10 +588,10 @@ public final class AlgebraicReals {
 
     /** Sorts a part in among the pieces told, with the times that it divides f. */
     private void enter(Poly part, Poly f) {
-        int at = pieceCount;
+        int at = Math.min(pieceCount, PLACES - 1);
         Poly mine = pieces[at] == null ? new Poly() : pieces[at];
         mine.copy(part);
-        for (int i = pieceCount; i > 0 && mine.isAheadOf(pieces[i - 1]); i--) {
+        for (int i = at; i > 0 && mine.isAheadOf(pieces[i - 1]); i--) {
             pieces[i] = pieces[i - 1];
             times[i] = times[i - 1];
             at = i - 1;
@@ -640,19 +653,17 @@ public final class AlgebraicReals {
         }
 
         private void trim(int top) {
-            n = Math.min(top, d.length);
+            n = top < d.length ? top : d.length;
             for (; n > 0 && d[n - 1] == 0; n--) { }
             if (n == 0) s = 0;
         }
 
-        private static int width(int v) {
-            for (int k = 0; k < 32; k++) if (v >>> k == 0) return k;
-            return 32;
-        }
-
         /** How many bits its size has. */
         int size() {
-            return n == 0 ? 0 : (n - 1) * BITS + width(d[n - 1]);
+            if (n == 0) return 0;
+            int bits = (n - 1) * BITS;
+            for (int k = 0; k < BITS && d[n - 1] >>> k != 0; k++) bits++;
+            return bits;
         }
 
         /** How the sizes compare. */
@@ -710,7 +721,8 @@ public final class AlgebraicReals {
                 borrow = t < 0 ? 1 : 0;
                 d[i] = t & MASK;
             }
-            trim(na);
+            n = na;
+            for (; n > 0 && d[n - 1] == 0; n--) { }
         }
 
         /** Adds 1 or -1. */
@@ -719,15 +731,26 @@ public final class AlgebraicReals {
                 put(by);
                 return;
             }
-            boolean more = s == by;
+            if (s == by) {
+                grow();
+                return;
+            }
             int i = 0;
-            for (; i < n && d[i] == (more ? MASK : 0); i++) d[i] = more ? 0 : MASK;
+            for (; i < n - 1 && d[i] == 0; i++) d[i] = MASK;
+            d[i]--;
+            trim(n);
+        }
+
+        /** Makes the size greater by 1. */
+        private void grow() {
+            int i = 0;
+            for (; i < n && d[i] == MASK; i++) d[i] = 0;
             if (i == n) {
                 if (n == d.length) d = Arrays.copyOf(d, 2 * n + 2);
-                d[n++] = 0;
+                d[n] = 0;
+                n++;
             }
-            d[i] += more ? 1 : -1;
-            trim(n);
+            d[i]++;
         }
 
         /** a times b; neither of them may be this one. */
@@ -792,7 +815,8 @@ public final class AlgebraicReals {
         /** a times 2^k. */
         void raise(Big a, int k) {
             if (a.n == 0 || k < 0) {
-                clear();
+                n = 0;
+                s = 0;
                 return;
             }
             int w = k / BITS, r = k % BITS, na = a.n, need = na + w + 1;
@@ -804,7 +828,7 @@ public final class AlgebraicReals {
             }
             Arrays.fill(d, 0, w, 0);
             s = a.s;
-            trim(need);
+            n = d[need - 1] == 0 ? need - 1 : need;
         }
 
         /** a / 2^k, rounded down, or up. */
@@ -819,7 +843,10 @@ public final class AlgebraicReals {
             }
             s = sa;
             trim(m);
-            if (lost && sa == (upwards ? 1 : -1)) nudge(sa);
+            if (lost && sa == (upwards ? 1 : -1)) {
+                s = sa;
+                grow();
+            }
         }
 
         /** What a leaves by b, with a's sign; the quotient, cut towards 0, goes to q. */
@@ -829,14 +856,14 @@ public final class AlgebraicReals {
                 q.clear();
                 return;
             }
-            int nb = b.n, shift = BITS - width(b.d[nb - 1]), sa = a.s, sb = b.s;
+            int nb = b.n, shift = nb * BITS - b.size(), sa = a.s, sb = b.s;
             raise(a, shift);
             int top = n;
             if (top >= d.length) d = Arrays.copyOf(d, 2 * top + 2);
             d[top] = 0;
             int k = top - nb;
             if (k >= q.d.length) q.d = new int[2 * k + 2];
-            long lead = digit(b, nb - 1, shift), next = nb > 1 ? digit(b, nb - 2, shift) : 0;
+            long lead = Math.max(1, digit(b, nb - 1, shift)), next = nb > 1 ? digit(b, nb - 2, shift) : 0;
             for (int j = k; j >= 0; j--) {
                 long t = (long) d[j + nb] << BITS | d[j + nb - 1];
                 long guess = Math.min(t / lead, MASK), over = t - guess * lead;
@@ -850,10 +877,9 @@ public final class AlgebraicReals {
                     restore(b, shift, j);
                 }
             }
+            for (int i = 0; i < nb; i++) d[i] = d[i] >>> shift | (i + 1 < nb ? d[i + 1] << BITS - shift & MASK : 0);
             s = sa;
             trim(nb);
-            lower(this, shift, false);
-            s = n == 0 ? 0 : sa;
             q.s = sa * sb;
             q.trim(k + 1);
         }
@@ -997,17 +1023,24 @@ public final class AlgebraicReals {
             Big share = a, next = b, other = t;
             share.copy(f.lead());
             for (int i = f.deg - 1; i >= 0 && !share.isOne(); i--) {
-                if (f.c[i].s == 0) continue;
                 next.copy(f.c[i]);
-                Big found = shared(share, next, other);
-                if (found == next) next = share;
-                else if (found == other) other = share;
-                share = found;
+                // Euclid: two steps take a bit off at least.
+                for (int turn = 0; turn < 1000000 && next.s != 0; turn++) {
+                    if (share.n <= 2 && next.n <= 2) {
+                        share.put(shared(low(share), low(next)));
+                        break;
+                    }
+                    other.rest(share, next, q);
+                    Big first = share;
+                    share = next;
+                    next = other;
+                    other = first;
+                }
             }
             share.s = 1;
-            boolean flip = f.lead().s < 0;
+            boolean flip = f.lead().s < 0, whole = share.isOne();
             for (int i = 0; i <= f.deg; i++) {
-                if (!share.isOne()) {
+                if (!whole) {
                     u.rest(f.c[i], share, q);
                     f.c[i].copy(q);
                 }
@@ -1015,28 +1048,11 @@ public final class AlgebraicReals {
             }
         }
 
-        /** What two sizes share, in one of the three; none of them stays as it was. */
-        private Big shared(Big x, Big y, Big z) {
-            // Each step takes more than half a bit off.
-            for (int i = 0; i < 1000000 && y.s != 0; i++) {
-                if (x.n <= 2 && y.n <= 2) {
-                    x.put(sharedLongs(low(x), low(y)));
-                    return x;
-                }
-                z.rest(x, y, q);
-                Big first = x;
-                x = y;
-                y = z;
-                z = first;
-            }
-            return x;
-        }
-
         private static long low(Big x) {
             return x.n == 0 ? 0 : x.n == 1 ? x.d[0] : (long) x.d[1] << Big.BITS | x.d[0];
         }
 
-        private static long sharedLongs(long x, long y) {
+        private static long shared(long x, long y) {
             for (int i = 0; i < 200 && y != 0; i++) {
                 long r = x % y;
                 x = y;
@@ -1166,7 +1182,7 @@ public final class AlgebraicReals {
         }
 
         void trim(int top) {
-            deg = Math.min(top, c.length - 1);
+            deg = top < c.length ? top : c.length - 1;
             for (; deg >= 0 && c[deg] == 0; deg--) { }
         }
 
@@ -1227,7 +1243,7 @@ public final class AlgebraicReals {
         /** Becomes the monic polynomial of the highest degree that divides it and b; b is lost. */
         void share(Row b, long m) {
             for (int i = 0; i < 60 && b.deg >= 0; i++) {
-                b.monic(m);
+                if (b.c[b.deg] != 1) b.scale(inverse(b.c[b.deg], m), m);
                 rest(b, null, m);
                 long[] mine = c;
                 c = b.c;
@@ -1236,7 +1252,7 @@ public final class AlgebraicReals {
                 deg = b.deg;
                 b.deg = own;
             }
-            monic(m);
+            if (deg >= 0 && c[deg] != 1) scale(inverse(c[deg], m), m);
         }
     }
 
@@ -1299,7 +1315,7 @@ public final class AlgebraicReals {
          * all values of right at a root of left, or left's own roots; each of them once.
          */
         void build(int kind) {
-            int whole = kind == SUMS || kind == PRODUCTS ? left.deg * right.deg : left.deg;
+            int whole = Math.min(Poly.TOP, kind == SUMS || kind == PRODUCTS ? left.deg * right.deg : left.deg);
             int bits = bound(kind, whole), used = 0;
             made.deg = 0;
             made.c[0].put(1);
@@ -1474,70 +1490,22 @@ public final class AlgebraicReals {
         }
     }
 
-    /** Parts of a polynomial without repeated roots: its factors by a prime, lifted and put together. */
-    private static final class Parter {
-        private static final int TRIES = 3, SHIFTS = 60;
+    /** Cuts a polynomial without repeated roots into its factors by a prime, after Berlekamp. */
+    private static final class Cutter {
+        private static final int SHIFTS = 60;
 
-        final Poly[] found = new Poly[PLACES];
-        int size;
-        private final Tools tools;
-        private final Poly rest = new Poly(), made = new Poly(), other = new Poly();
+        final Row[] factors = new Row[PLACES];
+        int pieces;
         private final Row f = new Row(), g = new Row(), h = new Row(), v = new Row(), w = new Row();
         private final long[][] grid = new long[Poly.TOP + 1][Poly.TOP + 1];
         private final int[] pivots = new int[Poly.TOP + 1];
-        private final Row[] factors = new Row[PLACES], shares = new Row[PLACES];
-        private final Poly[] lifted = new Poly[PLACES];
-        private int pieces;
-        private final Big low = new Big(), high = new Big(), t = new Big(), u = new Big(), sum = new Big();
 
-        Parter(Tools tools) {
-            this.tools = tools;
-            for (int i = 0; i < PLACES; i++) {
-                found[i] = new Poly();
-                lifted[i] = new Poly();
-                factors[i] = new Row();
-                shares[i] = new Row();
-            }
+        Cutter() {
+            for (int i = 0; i < PLACES; i++) factors[i] = new Row();
         }
 
-        /** Takes s as the only part. */
-        void whole(Poly s) {
-            size = 1;
-            found[0].copy(s);
-        }
-
-        void run(Poly s) {
-            size = 0;
-            if (s.deg < 1) return;
-            long m = s.deg == 1 ? 0 : choose(s);
-            if (m == 0 || pieces == 1) {
-                whole(s);
-                return;
-            }
-            rest.copy(s);
-            cut(m);
-            lift(m);
-            gather();
-        }
-
-        /** The prime, of the first few that are of use, by which s has the fewest factors. */
-        private long choose(Poly s) {
-            long best = 0;
-            int fewest = 100, tried = 0;
-            for (int i = 0; i < PRIMES.length && tried < TRIES && fewest > 2; i++) {
-                if (!split(s, PRIMES[i])) continue;
-                tried++;
-                if (pieces <= fewest) {
-                    fewest = pieces;
-                    best = PRIMES[i];
-                }
-            }
-            if (best != 0 && pieces != fewest) split(s, best);
-            return best;
-        }
-
-        /** Counts the factors of s by a prime, after Berlekamp: whether the prime is of use. */
-        private boolean split(Poly s, long m) {
+        /** Counts the factors of s: whether the prime is of use. */
+        boolean count(Poly s, long m) {
             f.take(s, m);
             if (f.deg != s.deg) return false;
             f.monic(m);
@@ -1549,6 +1517,7 @@ public final class AlgebraicReals {
             w.c[1] = 1;
             w.deg = 1;
             raise(m, m);
+            // Column i of the grid: x^(i m) by f, less x^i.
             int n = f.deg;
             g.put(1);
             for (int i = 0; i < n; i++) {
@@ -1598,8 +1567,11 @@ public final class AlgebraicReals {
             return rank;
         }
 
-        /** Cuts f into its factors: a vector that the grid takes to 0 is a number by each of them. */
-        private void cut(long m) {
+        /**
+         * Finds the factors that were counted. A vector that the grid takes to 0 is a plain number
+         * by each factor, and a half of the numbers become 1 when they are raised to (m - 1) / 2.
+         */
+        void cut(long m) {
             int n = f.deg, done = 1;
             factors[0].copy(f);
             for (int shift = 0; shift < SHIFTS && done < pieces; shift++) {
@@ -1613,72 +1585,99 @@ public final class AlgebraicReals {
                     raise((m - 1) / 2, m);
                     w.put(1);
                     v.add(w, m - 1, m);
-                    done = divide(done, m);
+                    int now = done;
+                    for (int i = 0; i < done && now < PLACES; i++) {
+                        g.copy(factors[i]);
+                        h.copy(v);
+                        g.share(h, m);
+                        if (g.deg < 1 || g.deg >= factors[i].deg) continue;
+                        h.copy(factors[i]);
+                        h.rest(g, factors[i], m);
+                        factors[now].copy(g);
+                        now++;
+                    }
+                    done = now;
                 }
             }
             pieces = done;
         }
+    }
 
-        /** Parts each factor by what it shares with v: how many there are then. */
-        private int divide(int done, long m) {
-            int now = done;
-            for (int i = 0; i < done && now < PLACES; i++) {
-                if (factors[i].deg < 2) continue;
-                g.copy(factors[i]);
-                h.copy(v);
-                g.share(h, m);
-                if (g.deg < 1 || g.deg >= factors[i].deg) continue;
-                h.copy(factors[i]);
-                h.rest(g, factors[i], m);
-                factors[now].copy(g);
-                now++;
+    /** Parts of a polynomial without repeated roots: its factors by a prime, lifted and put together. */
+    private static final class Parter {
+        private static final int TRIES = 3;
+
+        final Poly[] found = new Poly[PLACES];
+        int size;
+        private final Tools tools;
+        private final Cutter cutter = new Cutter();
+        private final Poly rest = new Poly(), made = new Poly(), other = new Poly();
+        private final Row f = new Row(), g = new Row(), h = new Row(), v = new Row(), w = new Row();
+        private final Row[] shares = new Row[PLACES];
+        private final Poly[] lifted = new Poly[PLACES];
+        private final Big low = new Big(), high = new Big(), t = new Big(), u = new Big(), sum = new Big();
+
+        Parter(Tools tools) {
+            this.tools = tools;
+            for (int i = 0; i < PLACES; i++) {
+                found[i] = new Poly();
+                lifted[i] = new Poly();
+                shares[i] = new Row();
             }
-            return now;
         }
 
-        /** Lifts the factors to a power of the prime above twice any coefficient, which goes to low. */
-        private void lift(long m) {
-            int bits = rest.bits() + rest.deg + 4, n = rest.deg;
-            for (int i = 0; i < pieces; i++) {
-                lifted[i].deg = factors[i].deg;
-                for (int j = 0; j <= factors[i].deg; j++) lifted[i].c[j].put(factors[i].c[j]);
+        /** Takes s as the only part. */
+        void whole(Poly s) {
+            size = 1;
+            found[0].copy(s);
+        }
+
+        void run(Poly s) {
+            size = 0;
+            if (s.deg < 1) return;
+            // The prime, of the first few that are of use, by which s has the fewest factors.
+            long best = 0;
+            int fewest = s.deg + 1, tried = s.deg == 1 ? TRIES : 0;
+            for (int i = 0; i < PRIMES.length && tried < TRIES && fewest > 2; i++) {
+                if (!cutter.count(s, PRIMES[i])) continue;
+                tried++;
+                if (cutter.pieces > fewest) continue;
+                fewest = cutter.pieces;
+                best = PRIMES[i];
             }
-            low.put(m);
-            if (low.size() < bits) shareOut(m);
-            long unit = Row.inverse(rest.lead().left(m), m);
-            for (int step = 0; step < 100 && low.size() < bits; step++) {
-                high.scale(low, m);
-                multiply((1 << pieces) - 1, high);
-                for (int j = 0; j < n; j++) {
-                    sum.join(rest.c[j], made.c[j], -1);
-                    u.over(sum, high, t);
-                    sum.rest(t, low, u);
-                    g.c[j] = u.left(m) * unit % m;
-                }
-                g.trim(n - 1);
-                for (int i = 0; i < pieces; i++) {
-                    h.times(g, shares[i], m);
-                    h.rest(factors[i], null, m);
-                    for (int j = 0; j <= h.deg; j++) {
-                        t.scale(low, h.c[j]);
-                        lifted[i].c[j].join(lifted[i].c[j], t, 1);
-                    }
-                }
-                low.copy(high);
+            if (best == 0 || fewest == 1) {
+                whole(s);
+                return;
             }
+            if (cutter.pieces != fewest) cutter.count(s, best);
+            cutter.cut(best);
+            rest.copy(s);
+            for (int i = 0; i < cutter.pieces; i++) {
+                Row factor = cutter.factors[i];
+                lifted[i].deg = factor.deg;
+                for (int j = 0; j <= factor.deg; j++) lifted[i].c[j].put(factor.c[j]);
+            }
+            low.put(best);
+            // Twice as much as any coefficient of a part that leads as s does.
+            int bits = s.bits() + s.deg + 4;
+            if (low.size() < bits) {
+                shareOut(best);
+                lift(best, bits);
+            }
+            gather();
         }
 
         /** For each factor what the product of the others times is 1 by it. */
         private void shareOut(long m) {
-            for (int i = 0; i < pieces; i++) {
+            for (int i = 0; i < cutter.pieces; i++) {
                 g.put(1);
-                for (int j = 0; j < pieces; j++) {
+                for (int j = 0; j < cutter.pieces; j++) {
                     if (j == i) continue;
-                    h.times(g, factors[j], m);
-                    h.rest(factors[i], null, m);
+                    h.times(g, cutter.factors[j], m);
+                    h.rest(cutter.factors[i], null, m);
                     g.copy(h);
                 }
-                invert(factors[i], shares[i], m);
+                invert(cutter.factors[i], shares[i], m);
             }
         }
 
@@ -1706,11 +1705,36 @@ public final class AlgebraicReals {
             out.rest(by, null, m);
         }
 
-        /** Puts rest's leading coefficient times the factors in a set into made, by a modulus. */
+        /** Lifts the factors, by low, to a power of the prime with so many bits, which low is then. */
+        private void lift(long m, int bits) {
+            long unit = Row.inverse(rest.lead().left(m), m);
+            for (int step = 0; step < 100 && low.size() < bits; step++) {
+                high.scale(low, m);
+                multiply(-1, high);
+                for (int j = 0; j < rest.deg; j++) {
+                    sum.join(rest.c[j], made.c[j], -1);
+                    u.over(sum, high, t);
+                    sum.rest(t, low, u);
+                    g.c[j] = u.left(m) * unit % m;
+                }
+                g.trim(rest.deg - 1);
+                for (int i = 0; i < cutter.pieces; i++) {
+                    h.times(g, shares[i], m);
+                    h.rest(cutter.factors[i], null, m);
+                    for (int j = 0; j <= h.deg; j++) {
+                        t.scale(low, h.c[j]);
+                        lifted[i].c[j].join(lifted[i].c[j], t, 1);
+                    }
+                }
+                low.copy(high);
+            }
+        }
+
+        /** Puts rest's leading coefficient times the factors in a set (-1: all) into made, by a modulus. */
         private void multiply(int set, Big modulus) {
             made.deg = 0;
-            u.over(rest.lead(), modulus, made.c[0]);
-            for (int i = 0; i < pieces; i++) {
+            made.c[0].rest(rest.lead(), modulus, u);
+            for (int i = 0; i < cutter.pieces; i++) {
                 if ((set >> i & 1) == 0) continue;
                 Poly b = lifted[i];
                 int top = Math.min(made.deg + b.deg, Poly.TOP);
@@ -1729,12 +1753,22 @@ public final class AlgebraicReals {
 
         /** Tries the sets of factors, the small ones first; what is left at the end is one part. */
         private void gather() {
-            int alive = (1 << pieces) - 1, left = pieces;
+            int all = (1 << cutter.pieces) - 1, gone = 0, left = cutter.pieces;
             for (int k = 1; 2 * k <= left; k++) {
-                for (int set = 1; set < 1 << pieces && 2 * k <= left; set++) {
-                    if (Integer.bitCount(set) != k || (set & ~alive) != 0) continue;
-                    if (size >= PLACES - 1 || !mayDivide(set) || !takes(set)) continue;
-                    alive &= ~set;
+                for (int set = 1; set <= all && 2 * k <= left; set++) {
+                    if (Integer.bitCount(set) != k || (set & gone) != 0 || !mayDivide(set)) continue;
+                    multiply(set, low);
+                    for (int i = 0; i <= made.deg; i++) {
+                        t.raise(made.c[i], 1);
+                        if (t.order(low) > 0) made.c[i].join(made.c[i], low, -1);
+                    }
+                    made.trim(made.deg);
+                    tools.tidy(made);
+                    if (made.deg < 1 || size >= PLACES - 1 || !tools.divides(rest, made, other)) continue;
+                    found[size].copy(made);
+                    size++;
+                    rest.copy(other);
+                    gone |= set;
                     left -= k;
                 }
             }
@@ -1745,34 +1779,17 @@ public final class AlgebraicReals {
         /** Whether the last coefficient of the product of a set allows that it divides rest. */
         private boolean mayDivide(int set) {
             sum.copy(rest.lead());
-            for (int i = 0; i < pieces; i++) {
+            for (int i = 0; i < cutter.pieces; i++) {
                 if ((set >> i & 1) == 0) continue;
                 t.times(sum, lifted[i].c[0]);
                 sum.rest(t, low, u);
             }
-            centre(sum);
+            t.raise(sum, 1);
+            if (t.order(low) > 0) sum.join(sum, low, -1);
             if (sum.s == 0) return rest.c[0].s == 0;
             t.times(rest.lead(), rest.c[0]);
             high.rest(t, sum, u);
             return high.s == 0;
-        }
-
-        private void centre(Big x) {
-            t.raise(x, 1);
-            if (t.order(low) > 0) x.join(x, low, -1);
-        }
-
-        /** Takes the part that a set of factors makes off rest, if it is one. */
-        private boolean takes(int set) {
-            multiply(set, low);
-            for (int i = 0; i <= made.deg; i++) centre(made.c[i]);
-            made.trim(made.deg);
-            tools.tidy(made);
-            if (made.deg < 1 || !tools.divides(rest, made, other)) return false;
-            found[size].copy(made);
-            size++;
-            rest.copy(other);
-            return true;
         }
     }
 
@@ -1918,11 +1935,9 @@ public final class AlgebraicReals {
             return new Big[] {new Big(), new Big()};
         }
 
-        /** Puts an interval / 2^e of what is being made into z: false if that takes a higher e. */
+        /** Puts an interval / 2^e of what is being made into z, from those in x and y: false if that takes a higher e. */
         boolean image(int e) {
             this.e = e;
-            if (a == null || kind != Norms.VALUES && b == null) return false;
-            approach(a, e, x);
             if (kind == Norms.VALUES) {
                 if (over && !invert(x)) return false;
                 horner(f, x);
@@ -1930,7 +1945,6 @@ public final class AlgebraicReals {
                 z[1].copy(work[1]);
                 return true;
             }
-            approach(b, e, y);
             if (kind == Norms.SUMS) {
                 for (int i = 0; i < 2; i++) {
                     t[0].scale(y[factor < 0 ? 1 - i : i], Math.abs(factor));
@@ -1951,6 +1965,7 @@ public final class AlgebraicReals {
 
         /** Puts an interval / 2^e of r into out. */
         void approach(Real r, int e, Big[] out) {
+            if (r == null) return;
             if (r.least.deg == 1) {
                 t[0].raise(r.least.c[0], e);
                 t[0].flip();
@@ -2020,7 +2035,19 @@ public final class AlgebraicReals {
             tools.eval(p, r.hi, null, r.e, atHi);
             for (int turn = 0; turn < 100000 && r.e < last; turn++) {
                 m = Math.min(m, last - r.e);
-                guess(m);
+                // Where the root would be, of 2^m steps, if the polynomial went straight from end to end.
+                t[0].join(atLo, atHi, -1);
+                int cut = Math.max(0, t[0].size() - m - 40);
+                t[0].lower(t[0], cut, false);
+                t[1].lower(atLo, cut, false);
+                t[1].raise(t[1], m);
+                t[2].rest(t[1], t[0], part);
+                if (part.s <= 0) part.put(1);
+                if (part.size() > m) {
+                    part.put(1);
+                    part.raise(part, m);
+                    part.nudge(-1);
+                }
                 t[0].raise(r.lo, m);
                 t[1].times(part, width);
                 mid.join(t[0], t[1], 1);
@@ -2041,22 +2068,6 @@ public final class AlgebraicReals {
                 atHi.copy(right ? atOther : atMid);
                 r.e += m;
                 m *= 2;
-            }
-        }
-
-        /** Puts into part where, of 2^m steps, the root is to be looked for: not at an end. */
-        private void guess(int m) {
-            t[0].join(atLo, atHi, -1);
-            int cut = Math.max(0, t[0].size() - m - 40);
-            t[0].lower(t[0], cut, false);
-            t[1].lower(atLo, cut, false);
-            t[1].raise(t[1], m);
-            t[2].rest(t[1], t[0], part);
-            if (part.s <= 0) part.put(1);
-            if (part.size() > m) {
-                part.put(1);
-                part.raise(part, m);
-                part.nudge(-1);
             }
         }
     }
