@@ -1,5 +1,6 @@
-# Random runs of calls against ref.py:  fuzz.py SEED RUNS [one|two|full [FILE]]
-# one: ordinary calls; two: long coefficients and near numbers; full: 100 numbers and the tape.
+# Random runs of calls against ref.py:  fuzz.py SEED RUNS [one|two|rel|full [FILE]]
+# one: ordinary calls; two: long coefficients and near numbers; rel: numbers of one field; full: 100
+# numbers and the tape.
 # The classes (AlgebraicReals and Drive) are looked for in /tmp/oracle. With FILE, the calls and
 # what is due go there, and oracle/runs.py makes a test of such files.
 import sys, os, random, subprocess
@@ -210,6 +211,33 @@ def two():
         else: call(ref,out,'write',h(ref),R.choice([0,1,2,5,12,20,80])); text(ref,out)
         if len(ref.n)>before: show(ref,out,len(ref.n)-1)
     return out[:512]
+def rel():
+    # numbers of one field, with long coefficients: what they make falls into parts
+    m=10; ref=Ref(m); out=[('new %d'%m,'ok')]
+    d=R.choice([2,2,3,3,4,5])
+    w=R.choice([2,6,12,20,30])
+    k=call(ref,out,'polynomial')
+    for i in range(d+1): call(ref,out,'coefficient',k,i,R.choice([1,-1])*(R.getrandbits(w)+(i in(0,d))))
+    if R.random()<.4 and d==4:
+        call(ref,out,'coefficient',k,1,0); call(ref,out,'coefficient',k,3,0)
+    for i in range(3): call(ref,out,'rootOf',k,i)
+    if not ref.n: return out
+    ps=[]
+    for i in range(4):
+        q=call(ref,out,'polynomial'); ps.append(q)
+        for j in range(R.randint(1,4)+1): call(ref,out,'coefficient',q,j,R.choice([1,-1])*R.getrandbits(R.choice([1,2,5,10,20])))
+        call(ref,out,'value',q,R.randrange(len(ref.n)))
+    for _ in range(45):
+        before=len(ref.n); a=R.randrange(len(ref.n)); b=R.randrange(len(ref.n)); t=R.random()
+        if t<.6: call(ref,out,'apply',R.randint(0,3),a,b)
+        elif t<.7: call(ref,out,'common',a,b)
+        elif t<.8: call(ref,out,'within',a,b)
+        elif t<.85: call(ref,out,'power',a,R.choice([-2,-1,2,3]))
+        elif t<.9: call(ref,out,'value',R.choice(ps),a)
+        elif t<.95: call(ref,out,'root',a,2)
+        else: call(ref,out,'compare',a,b)
+        if len(ref.n)>before: show(ref,out,len(ref.n)-1)
+    return out[:512]
 def full():
     m=R.choice([10,4,1]); ref=Ref(m); out=[('new %d'%m,'ok')]
     for i in range(R.choice([97,99,100,101])): call(ref,out,'fraction',R.randint(-9,9),R.randint(1,5))
@@ -236,7 +264,7 @@ def full():
     return out[:512]
 mode=sys.argv[3] if len(sys.argv)>3 else 'one'
 allout=[]
-for r in range(runs): allout+=(one() if mode=='one' else two() if mode=='two' else full())
+for r in range(runs): allout+=(one() if mode=='one' else two() if mode=='two' else rel() if mode=='rel' else full())
 if len(sys.argv)>4:
     open(sys.argv[4],'w').write('\n'.join(c+'\t'+str(e) for c,e in allout))
 p=subprocess.run(['java','-cp','/tmp/oracle','Drive','t'],input='\n'.join(c for c,_ in allout)+'\n',capture_output=True,text=True)

@@ -5,16 +5,17 @@ prim(F) = { my(G); G = F/content(F); if (pollead(G) < 0, G = -G); G };
 rr(F) = if (poldegree(F)==1, [-polcoef(F,0)/polcoef(F,1)], polrootsreal(F));
 num(F,i) = rr(F)[i+1];
 tol = 1.0*10^-330;
-dist(F,t) = { my(v,w); if (poldegree(F)==1, return(abs(t+polcoef(F,0)/polcoef(F,1)))); v = abs(subst(F,x,t)); w = abs(subst(deriv(F),x,t)); if (v < 10^-350, return(v)); if (w < 10^-350, return(10^9)); v/w };
+dist(F,t) = { my(v,w); if (poldegree(F)==1, return(abs(t+polcoef(F,0)/polcoef(F,1)))); v = abs(subst(F,x,t)); w = abs(subst(deriv(F),x,t)); if (v < 10^-350, return(v)); if (w < 10^-350 || w < v*10^-200, return(10^9)); v/w };
 pick(R,t) = {
   my(fa,b,d,e,best,rts,pl);
+  if (abs(t) < 10^-300 && polcoef(R,0)==0, return([[0,1],0]));
   fa = factor(R)[,1]; best = 0; b = 0;
   for (i=1, #fa, e = dist(prim(fa[i]), t); if (best==0 || e < d, d = e; best = prim(fa[i])));
   rts = rr(best); pl = 0; d = oo;
   for (i=1, #rts, if (abs(rts[i]-t) < d, d = abs(rts[i]-t); pl = i-1));
   [Vecrev(best), pl]
 };
-addn(p,i,q,j,k) = { my(R); if (k<0, , ); R = polresultant(subst(p,x,y), numerator(subst(q,x,(x-y)/k)*k^poldegree(q)), y); pick(R, num(p,i)+k*num(q,j)) };
+addn(p,i,q,j,k) = { my(R); if (k==-1 && p==q && i==j, return([[0,1],0])); R = polresultant(subst(p,x,y), numerator(subst(q,x,(x-y)/k)*k^poldegree(q)), y); pick(R, num(p,i)+k*num(q,j)) };
 mul(p,i,q,j) = { my(R,n); n = poldegree(q); R = polresultant(subst(p,x,y), sum(h=0,n,polcoef(q,h)*x^h*y^(n-h)), y); if (poldegree(R) < 1, R = x); pick(R, num(p,i)*num(q,j)) };
 inv(p,i) = pick(polrecip(p), 1/num(p,i));
 val(f,p,i) = { my(a,c); c = charpoly(Mod(f, p)); pick(prim(c), if(f==0,0.,subst(f*1.0,x,num(p,i)))) };

@@ -12,7 +12,7 @@ public final class AlgebraicReals {
     public static final int UNKNOWN = -101, OUTSIDE = -102, ZERO = -103, NEGATIVE = -104, OPEN = -105, FULL = -106;
 
     private static final int NUMBERS = 100, POLYNOMIALS = 30, PLACES = 12, SIZE = 120, STACK = 40;
-    /** No number that can be made needs an interval this fine: two of them lie 2^-2500 apart at least. */
+    /** Nothing that has to be told apart needs so fine an interval: it lies 2^-9000 apart at least. */
     private static final int FINEST = 16384, COARSEST = 32;
     /** What combine() and its like answer when more is to be done: settle(), takeRoot(), takePlace(). */
     private static final int PENDING = 1, ROOTED = 2, PLACED = 3;
@@ -761,7 +761,7 @@ public final class AlgebraicReals {
                 return;
             }
             if (k > d.length) d = new int[2 * k];
-            Arrays.fill(d, 0, k, 0);
+            for (int i = 0; i < k; i++) d[i] = 0;
             for (int i = 0; i < na; i++) {
                 long x = a.d[i], carry = 0;
                 for (int j = 0; j < nb; j++) {
@@ -826,7 +826,7 @@ public final class AlgebraicReals {
                 int high = i < na ? a.d[i] << r & MASK : 0;
                 d[i + w] = high | (i > 0 ? a.d[i - 1] >>> BITS - r : 0);
             }
-            Arrays.fill(d, 0, w, 0);
+            for (int i = 0; i < w; i++) d[i] = 0;
             s = a.s;
             n = d[need - 1] == 0 ? need - 1 : need;
         }
