@@ -531,6 +531,7 @@ public final class Promises {
         due("17: the three cosines", x.within(x.turn(1, 7, false), x.turn(2, 7, false)), 1);
         due("17: of 7 and 9", x.within(x.turn(1, 7, false), x.turn(1, 9, false)), 0);
         due("17: OPEN by the degrees", x.within(c, c), OPEN);
+        due("17: OPEN before any look", x.within(g, c), OPEN);
         due("17: UNKNOWN", x.within(c, 99), UNKNOWN);
         due("17: UNKNOWN", x.within(-2, c), UNKNOWN);
         int big = x.root(x.fraction(Long.MAX_VALUE, 3), 2);
