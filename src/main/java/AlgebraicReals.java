@@ -2007,6 +2007,7 @@ public final class AlgebraicReals {
         private void horner(Poly g, Big[] v) {
             work[0].clear();
             work[1].clear();
+            if (g == null) return;
             for (int i = g.deg; i >= 0; i--) {
                 multiply(work, v, work);
                 t[0].raise(g.c[i], e);
