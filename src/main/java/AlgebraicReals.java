@@ -14,11 +14,11 @@ public final class AlgebraicReals {
     private static final int NUMBERS = 100, POLYNOMIALS = 30, PLACES = 12, SIZE = 120, STACK = 40;
     /** Nothing that has to be told apart needs so fine an interval: it lies 2^-9000 apart at least. */
     private static final int FINEST = 16384, COARSEST = 32;
-    /** What combine() and its like answer when more is to be done: settle(), takeRoot(), takePlace(). */
-    private static final int PENDING = 1, ROOTED = 2, PLACED = 3;
+    /** What combine() and its like answer when more is to be done: settle(), takeRoot(), takePlace(), image(). */
+    private static final int PENDING = 1, ROOTED = 2, PLACED = 3, VALUED = 4;
     private static final int POWER = 4, ROOT = 5, MINUS = 6, TURN = 7, WHOLE = 8, HANDLE = 9;
 
-    /** Primes below 2^30 without any pattern, so that roots that people think of stay apart by them. */
+    /** The first primes that are tried, all below 2^30 and above MORE, below which Tools.prime() finds others. */
     private static final int[] PRIMES = {
         1040104259, 1057330289, 1042876447, 1054762999, 1062199867, 1047491981,
         1048520923, 1065405337, 1040921149, 1060484767, 1043264011, 1062751117,
@@ -36,6 +36,8 @@ public final class AlgebraicReals {
         1062346073, 1058836319, 1068350599, 1060409249, 1049221301, 1064419229,
         1072937017, 1047452353, 1059273697, 1071190427, 1040694113, 1050144817,
     };
+    /** Of so many primes some are of use to any polynomial that can come up here: some 50,000 bits are there to be spoilt. */
+    private static final int MORE = 1040000000, ENOUGH = 20000;
 
     private final int most;
     private final Real[] numbers = new Real[NUMBERS];
@@ -87,6 +89,7 @@ public final class AlgebraicReals {
         if (isNone(a)) return UNKNOWN;
         if (n < -8 || n > 8) return OUTSIDE;
         int no = raise(numbers[a], n);
+        if (no == VALUED) no = image();
         if (no == PENDING) no = settle(narrow());
         return no != 0 ? no : keep();
     }
@@ -123,7 +126,9 @@ public final class AlgebraicReals {
         if (isUntold(polynomial) || isNone(a)) return UNKNOWN;
         norms.left.copy(numbers[a].least);
         norms.right.copy(told[polynomial]);
-        int no = image(numbers[a], false);
+        zones.a = numbers[a];
+        zones.over = false;
+        int no = image();
         if (no == PENDING) no = settle(narrow());
         return no != 0 ? no : keep();
     }
@@ -168,6 +173,7 @@ public final class AlgebraicReals {
                     if (kind < POWER) no = combine(kind, a, b);
                     else if (!isNone(first)) fresh.copy(numbers[first]);
             }
+            if (no == VALUED) no = image();
             if (no == PENDING) no = settle(narrow());
             else if (no == ROOTED) no = takeRoot();
             else if (no == PLACED) no = takePlace();
@@ -401,13 +407,13 @@ public final class AlgebraicReals {
         if (n < 0) norms.left.reverse(a.least);
         else norms.left.copy(a.least);
         norms.right.monomial(Math.abs(n));
-        return image(a, n < 0);
+        zones.a = a;
+        zones.over = n < 0;
+        return VALUED;
     }
 
-    /** The polynomial norms.right at a, or at 1 / a, whose least polynomial norms.left holds. */
-    private int image(Real a, boolean over) {
-        zones.a = a;
-        zones.over = over;
+    /** The polynomial norms.right at the number that the zones hold, or at 1 / it; norms.left has its least polynomial. */
+    private int image() {
         zones.kind = Norms.VALUES;
         zones.f = norms.right;
         norms.build(Norms.VALUES);
@@ -1016,6 +1022,28 @@ public final class AlgebraicReals {
     private static final class Tools {
         private final Big a = new Big(), b = new Big(), q = new Big(), t = new Big(), u = new Big();
         private final Poly work = new Poly();
+        /** Primes beyond those of the table, found as they are asked for. */
+        private int[] more = new int[8];
+        private int found;
+
+        /** The i-th prime, from 0; i is not below 0. */
+        int prime(int i) {
+            if (i < PRIMES.length) return PRIMES[i];
+            int k = i - PRIMES.length;
+            if (k >= more.length) more = Arrays.copyOf(more, 2 * k);
+            for (; found <= k; found++) {
+                int p = (found == 0 ? MORE : more[found - 1]) - 1;
+                for (; p > 2 && !isPrime(p); p--) { }
+                more[found] = p;
+            }
+            return more[k];
+        }
+
+        private static boolean isPrime(int p) {
+            if (p % 2 == 0) return false;
+            for (int k = 3; k <= p / k; k += 2) if (p % k == 0) return false;
+            return true;
+        }
 
         /** Puts f into least form. */
         void tidy(Poly f) {
@@ -1061,12 +1089,14 @@ public final class AlgebraicReals {
             return x;
         }
 
+        /** Puts f's derivative into out, which may be f. */
         void slope(Poly f, Poly out) {
-            out.deg = f.deg - 1;
-            for (int i = 1; i <= f.deg; i++) out.c[i - 1].scale(f.c[i], i);
+            int top = f.deg;
+            out.deg = top - 1;
+            for (int i = 1; i <= top; i++) out.c[i - 1].scale(f.c[i], i);
         }
 
-        /** Whether g, which is not 0, divides f; if so, the quotient goes to out. */
+        /** Whether g, which is not 0, divides f; if so, the quotient goes to out, which may be f. */
         boolean divides(Poly f, Poly g, Poly out) {
             if (g.deg < 0 || f.deg < g.deg) return false;
             work.copy(f);
@@ -1296,15 +1326,17 @@ public final class AlgebraicReals {
     /** Polynomials that have the numbers asked for as roots: their images by primes are put together. */
     private static final class Norms {
         static final int SUMS = 0, PRODUCTS = 1, VALUES = 2, ITSELF = 3;
-        /** So many primes must agree before repeated roots are believed. */
-        private static final int AGREED = 3;
 
         final Poly left = new Poly(), right = new Poly(), made = new Poly();
+        private final Poly all = new Poly(), repeated = new Poly();
         private final Tools tools;
         private final Row p = new Row(), q = new Row(), r = new Row(), g = new Row(), h = new Row();
         private final long[] sumsOfP = new long[Poly.TOP + 2], sumsOfQ = new long[Poly.TOP + 2];
         private final long[] sums = new long[Poly.TOP + 2];
         private final Big product = new Big(), t = new Big();
+        /** How many roots there are, a repeated one counted as often as it comes. */
+        private int kind, whole;
+        private long lead;
 
         Norms(Tools tools) {
             this.tools = tools;
@@ -1315,70 +1347,103 @@ public final class AlgebraicReals {
          * all values of right at a root of left, or left's own roots; each of them once.
          */
         void build(int kind) {
-            int whole = Math.min(Poly.TOP, kind == SUMS || kind == PRODUCTS ? left.deg * right.deg : left.deg);
-            int bits = bound(kind, whole), used = 0;
-            made.deg = 0;
-            made.c[0].put(1);
-            for (int i = 0; i < PRIMES.length && whole > 0; i++) {
-                if (used > 0 && product.size() > bits && (made.deg == whole || used >= AGREED)) break;
-                if (!image(kind, whole, PRIMES[i]) || r.deg < made.deg) continue;
-                if (r.deg > made.deg) {
+            this.kind = kind;
+            whole = Math.min(Poly.TOP, kind == SUMS || kind == PRODUCTS ? left.deg * right.deg : left.deg);
+            int bits = bound(), next = 0;
+            made.monomial(0);
+            // A prime may let roots fall together that are different, and so may many: what they say is proved.
+            for (int least = 1; least <= whole; least = made.deg + 1) {
+                next = collect(made, bits, least, next);
+                tools.tidy(made);
+                if (made.deg == whole) break;
+                if (kind == ITSELF) all.copy(left);
+                else collect(all, bits, whole, 0);
+                if (hasEveryRoot()) break;
+            }
+        }
+
+        /**
+         * Puts images by primes from the next one on, with so many roots at least, together into
+         * out: those with each root once, or, for all, as often as it comes. Answers the next prime.
+         */
+        private int collect(Poly out, int bits, int least, int next) {
+            int i = next;
+            out.deg = -1;
+            product.put(1);
+            for (; i < ENOUGH && product.size() <= bits; i++) {
+                int m = tools.prime(i);
+                if (!image(m)) continue;
+                if (out != all) single(m);
+                if (r.deg < Math.max(least, out.deg)) continue;
+                if (r.deg > out.deg) {
                     // The primes up to now let roots fall together that are different.
-                    used = 0;
-                    made.deg = r.deg;
                     product.put(1);
-                    for (int j = 0; j <= r.deg; j++) made.c[j].clear();
+                    out.deg = r.deg;
+                    for (int j = 0; j <= r.deg; j++) out.c[j].clear();
                 }
-                join(PRIMES[i]);
-                used++;
+                r.scale(lead, m);
+                join(out, m);
             }
-            for (int j = 0; j <= made.deg && whole > 0; j++) {
-                t.raise(made.c[j], 1);
-                if (t.order(product) > 0) made.c[j].join(made.c[j], product, -1);
+            for (int j = 0; j <= out.deg; j++) {
+                t.raise(out.c[j], 1);
+                if (t.order(product) > 0) out.c[j].join(out.c[j], product, -1);
             }
-            tools.tidy(made);
+            return i;
+        }
+
+        /**
+         * Whether what is made has every root of all, which is lost. By its degree it has no more of them
+         * than are different: so what is left of all divides the derivative only if it is the greatest
+         * divisor of both.
+         */
+        private boolean hasEveryRoot() {
+            if (!tools.divides(all, made, repeated)) return false;
+            tools.slope(all, all);
+            return tools.divides(all, repeated, all);
         }
 
         /** Bits enough for the coefficients of what image() gives, with a sign: by the sizes of the roots. */
-        private int bound(int kind, int whole) {
+        private int bound() {
             int ofLeft = left.bits() + 2, ofRight = right.bits() + 2;
             if (kind == ITSELF) return ofLeft + whole + 2;
             if (kind == VALUES) return whole * (ofRight + 2) + Math.max(0, right.deg) * ofLeft + whole + 2;
             return right.deg * ofLeft + left.deg * ofRight + (kind == SUMS ? 2 : 1) * whole + 2;
         }
 
-        /** Puts the image by a prime into r, with the leading coefficient it has before it is cut down: whether the prime is of use. */
-        private boolean image(int kind, int whole, long m) {
+        /** Puts the monic image by a prime into r, and into lead what it leads with: whether the prime is of use. */
+        private boolean image(long m) {
             p.take(left, m);
             q.take(right, m);
             if (p.deg != left.deg) return false;
-            long lead = p.c[p.deg];
+            lead = p.c[p.deg];
             p.monic(m);
             if (kind == ITSELF) {
                 r.copy(p);
-            } else {
-                sumsOf(p, sumsOfP, whole, m);
-                if (kind == VALUES) {
-                    lead = Row.raised(lead, Math.max(0, right.deg), m);
-                    sumsOfValues(whole, m);
-                } else {
-                    if (q.deg != right.deg) return false;
-                    lead = Row.raised(lead, q.deg, m) * Row.raised(q.c[q.deg], p.deg, m) % m;
-                    q.monic(m);
-                    sumsOf(q, sumsOfQ, whole, m);
-                    sumsOfPairs(kind, whole, m);
-                }
-                fromSums(whole, m);
+                return true;
             }
+            sumsOf(p, sumsOfP, whole, m);
+            if (kind == VALUES) {
+                lead = Row.raised(lead, Math.max(0, right.deg), m);
+                sumsOfValues(whole, m);
+            } else {
+                if (q.deg != right.deg) return false;
+                lead = Row.raised(lead, q.deg, m) * Row.raised(q.c[q.deg], p.deg, m) % m;
+                q.monic(m);
+                sumsOf(q, sumsOfQ, whole, m);
+                sumsOfPairs(kind, whole, m);
+            }
+            fromSums(whole, m);
+            return true;
+        }
+
+        /** Leaves each root of r once. */
+        private void single(long m) {
             g.copy(r);
             h.slope(r, m);
             g.share(h, m);
-            if (g.deg > 0) {
-                h.copy(r);
-                h.rest(g, r, m);
-            }
-            r.scale(lead, m);
-            return true;
+            if (g.deg < 1) return;
+            h.copy(r);
+            h.rest(g, r, m);
         }
 
         /** The sums of the powers of a monic polynomial's roots, by Newton. */
@@ -1431,13 +1496,13 @@ public final class AlgebraicReals {
             r.deg = n;
         }
 
-        /** Brings what is made, known by the product of the primes up to now, into line with r. */
-        private void join(long m) {
+        /** Brings out, known by the product of the primes up to now, into line with r. */
+        private void join(Poly out, long m) {
             long unit = Row.inverse(product.left(m), m);
             for (int j = 0; j <= r.deg; j++) {
-                long lack = (r.c[j] + m - made.c[j].left(m)) % m;
+                long lack = (r.c[j] + m - out.c[j].left(m)) % m;
                 t.scale(product, lack * unit % m);
-                made.c[j].join(made.c[j], t, 1);
+                out.c[j].join(out.c[j], t, 1);
             }
             product.scale(product, m);
         }
@@ -1492,7 +1557,8 @@ public final class AlgebraicReals {
 
     /** Cuts a polynomial without repeated roots into its factors by a prime, after Berlekamp. */
     private static final class Cutter {
-        private static final int SHIFTS = 60;
+        /** Two numbers by a prime m do not stay both squares, or both none, for 2 m^(1/2) (1 + ln m) shifts (Polya, Weil). */
+        private static final int SHIFTS = 1 << 21;
 
         final Row[] factors = new Row[PLACES];
         int pieces;
@@ -1636,20 +1702,21 @@ public final class AlgebraicReals {
             size = 0;
             if (s.deg < 1) return;
             // The prime, of the first few that are of use, by which s has the fewest factors.
-            long best = 0;
-            int fewest = s.deg + 1, tried = s.deg == 1 ? TRIES : 0;
-            for (int i = 0; i < PRIMES.length && tried < TRIES && fewest > 2; i++) {
-                if (!cutter.count(s, PRIMES[i])) continue;
+            int best = 0, last = 0, fewest = s.deg + 1, tried = s.deg == 1 ? TRIES : 0;
+            for (int i = 0; i < ENOUGH && tried < TRIES && fewest > 2; i++) {
+                int m = tools.prime(i);
+                if (!cutter.count(s, m)) continue;
                 tried++;
-                if (cutter.pieces > fewest) continue;
+                last = m;
+                if (cutter.pieces >= fewest) continue;
                 fewest = cutter.pieces;
-                best = PRIMES[i];
+                best = m;
             }
             if (best == 0 || fewest == 1) {
                 whole(s);
                 return;
             }
-            if (cutter.pieces != fewest) cutter.count(s, best);
+            if (best != last) cutter.count(s, best);
             cutter.cut(best);
             rest.copy(s);
             for (int i = 0; i < cutter.pieces; i++) {
