@@ -1,7 +1,7 @@
-# Random runs of calls against ref.py:  fuzz.py SEED RUNS [one|two|rel|full [FILE]]
+# Random runs of calls against ref.py:  fuzz.py SEED RUNS [one|two|rel|full|hard [FILE]]
 # one: ordinary calls; two: long coefficients and near numbers; rel: numbers of one field; full: 100
-# numbers and the tape.
-# The classes (AlgebraicReals and Drive) are looked for in /tmp/oracle. With FILE, the calls and
+# numbers and the tape; hard: roots that fall together by the class's own primes.
+# The classes (AlgebraicReals and Drive) are looked for in /tmp/oracle, or in ORACLE. With FILE, the calls and
 # what is due go there, and oracle/runs.py makes a test of such files.
 import sys, os, random, subprocess
 sys.path.insert(0,os.path.dirname(os.path.abspath(__file__)))
@@ -262,12 +262,124 @@ def full():
         if ref.n: call(ref,out,'compare',R.randrange(len(ref.n)),len(ref.n)-1)
     for i in range(32): call(ref,out,'polynomial')
     return out[:512]
+import re
+SRC=open(os.path.join(os.path.dirname(os.path.abspath(__file__)),'..','src','main','java','AlgebraicReals.java')).read()
+PR=list(map(int,re.findall(r'\b1\d{9}\b',SRC[SRC.index('PRIMES = {'):SRC.index('MORE = ')])))
+def primes(k):
+    # k of the first ones; most often the very first
+    t=R.random()
+    return PR[:k] if t<.5 else R.sample(PR[:2*k],k) if t<.8 else R.sample(PR,k)
+def times(a,b):
+    e=[0]*(len(a)+len(b)-1)
+    for i,v in enumerate(a):
+        for j,w in enumerate(b): e[i+j]+=v*w
+    return e
+def fits(c): return len(c)<=13 and max(map(abs,c))<2**63
+def hardpoly(n,bits):
+    k=max(1,min(25,bits*(n+1)//60))
+    k=R.randint(max(1,k//2),k)
+    ps=primes(k)
+    L=Ref.gp.q(f'hard({n},{ps},{[R.randrange(1,p) if R.random()<.8 else 0 for p in ps]})')
+    L=eval(L)
+    c=L[0]
+    if R.random()<.5: c=[a+R.randint(-2,2)*b for a,b in zip(c,R.choice(L[1:]))]
+    while c and c[-1]==0: c=c[:-1]
+    return c
+def tell(ref,out,c):
+    k=call(ref,out,'polynomial')
+    if k<0: return -1
+    for i,v in enumerate(c):
+        if v: call(ref,out,'coefficient',k,i,v)
+    return k
+def ask(ref,out,k):
+    c=call(ref,out,'roots',k)
+    r=call(ref,out,'parts',k)
+    for i in range(min(max(r,0),4)):
+        call(ref,out,'part',i,0); call(ref,out,'part',i,1); call(ref,out,'writePart',i); text(ref,out)
+    for i in range(max(0,min(c,2))):
+        b4=len(ref.n); call(ref,out,'rootOf',k,i if R.random()<.5 else c-1-i)
+        if len(ref.n)>b4: show(ref,out,b4)
+    if len(ref.n)>1: call(ref,out,'between',k,R.randrange(len(ref.n)),R.randrange(len(ref.n)))
+def prodfrac(ref,out,ps):
+    # the fraction that is the product of at most four primes
+    h=-1
+    for i in range(0,len(ps),2):
+        v=1
+        for p in ps[i:i+2]: v*=p
+        b=call(ref,out,'fraction',v*R.choice([1,1,2,3]) if v<2**60 else v,R.choice([1,1,1,5]))
+        h=b if h<0 else call(ref,out,'apply',2,h,b)
+    return h
+def hard():
+    ref=Ref(10); out=[('new 10','ok')]
+    for _ in range(3):
+        n=R.choice([2,2,3,3,4,5,5,6,7,8,9,10,11,12]); c=hardpoly(n,R.choice([61,61,40,20]))
+        if not c or not fits(c): continue
+        if R.random()<.4:
+            m=hardpoly(R.randint(2,4),R.choice([12,20,30]))
+            e=times(c,m) if m else c
+            if R.random()<.5 and m: e=times(m,m)
+            if m and R.random()<.3: e=times(e,[R.randint(-9,9) for _ in range(2)]+[1])
+            if fits(e): c=e
+        k=tell(ref,out,c)
+        if k>=0: ask(ref,out,k)
+    # roots of fractions that many primes divide, and that differ by such ones
+    nums=[]
+    for _ in range(R.randint(1,2)):
+        k=R.choice([2,2,3,4]); q=R.choice([2,2,2,3])
+        ps=primes(8)
+        a=prodfrac(ref,out,ps[:k]); b=prodfrac(ref,out,ps[k:k+R.choice([1,2,3,4])])
+        s=call(ref,out,'fraction',R.randint(1,9),R.choice([1,1,2,3]))
+        t=call(ref,out,'apply',0,s,a)
+        for z in (a,b,s,t):
+            if z>=0:
+                y=call(ref,out,'root',z,q if R.random()<.7 else 2)
+                if y>=0: nums.append(y)
+    # values that fall together: the product of primes as digits to the base D, at the root of D
+    D=R.choice([2,3,5,R.getrandbits(10)|1,R.getrandbits(30)|1,R.getrandbits(60)|1])
+    M=1
+    for p in primes(R.randint(1,11)):
+        if M*p<(D**6 if D>2**20 else 2**60): M*=p
+    c=[0]*13; v=M
+    for i in range(6):
+        if i==5 or v<2**60: c[2*i+1]=v; break
+        c[2*i+1]=v%D; v//=D
+    for i in range(0,13,2): c[i]=R.choice([0,0,R.randint(-9,9)])
+    if fits(c):
+        k=tell(ref,out,c); f=call(ref,out,'fraction',D,1)
+        if f>=0 and k>=0:
+            y=call(ref,out,'root',f,2)
+            if y>=0:
+                nums.append(y); z=call(ref,out,'value',k,y)
+                if z>=0: show(ref,out,z)
+    nums+=[i for i in range(len(ref.n)) if R.random()<.3]
+    # values of multiples of a least polynomial and a little more
+    for a in R.sample(nums,min(3,len(nums))):
+        A=list(ref.n[a][0])
+        for _ in range(20):
+            g=[R.choice([1,-1])*R.getrandbits(R.choice([1,3,20,40,60])) for _ in range(R.randint(1,12))]
+            c=times(A,g); c[0]+=R.randint(-9,9)
+            if R.random()<.5: c[1]+=R.randint(-9,9)
+            while c and c[-1]==0: c.pop()
+            if c and fits(c):
+                k=tell(ref,out,c); b4=len(ref.n); call(ref,out,'value',k,a)
+                if len(ref.n)>b4: show(ref,out,b4); nums.append(b4)
+                break
+    for _ in range(14):
+        if not nums or len(out)>440: break
+        a=R.choice(nums); b=R.choice(nums); t=R.random(); before=len(ref.n)
+        if t<.55: call(ref,out,'apply',R.choice([0,0,1,2,3]),a,b)
+        elif t<.75: call(ref,out,'common',a,b)
+        elif t<.85: call(ref,out,'within',a,b)
+        elif t<.92: call(ref,out,'power',a,R.choice([-2,2,3,4]))
+        else: call(ref,out,'compare',a,b)
+        if len(ref.n)>before: show(ref,out,before); nums.append(before)
+    return out[:512]
 mode=sys.argv[3] if len(sys.argv)>3 else 'one'
 allout=[]
-for r in range(runs): allout+=(one() if mode=='one' else two() if mode=='two' else rel() if mode=='rel' else full())
+for r in range(runs): allout+=(one() if mode=='one' else two() if mode=='two' else rel() if mode=='rel' else hard() if mode=='hard' else full())
 if len(sys.argv)>4:
     open(sys.argv[4],'w').write('\n'.join(c+'\t'+str(e) for c,e in allout))
-p=subprocess.run(['java','-cp','/tmp/oracle','Drive','t'],input='\n'.join(c for c,_ in allout)+'\n',capture_output=True,text=True)
+p=subprocess.run(['java','-cp',os.environ.get('ORACLE','/tmp/oracle'),'Drive','t'],input='\n'.join(c for c,_ in allout)+'\n',capture_output=True,text=True)
 got=p.stdout.split('\n')
 bad=0; worst=(0,''); last=0; total=0
 for k,(c,e) in enumerate(allout):

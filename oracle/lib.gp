@@ -35,3 +35,5 @@ cmpn(p,i,q,j) = { if (p==q, return(sign(i-j))); my(a=num(p,i), b=num(q,j)); sign
 flr(p,i,d) = { my(a=num(p,i)); floor(a*10^d) };
 sgn(p,i) = sign(num(p,i));
 wi(p,i,q,j) = { my(k,L); k = comk(p,q); L = addn(p,i,q,j,k); if (#L[1]-1 == poldegree(q), 1, 0) };
+\\ short polynomials of degree n at most that have each of as twice as a root by its prime
+hard(n,ps,as) = { my(M,a,B); M = vecprod(ps); a = lift(chinese(vector(#ps,i,Mod(as[i],ps[i])))); B = matrix(n+1,n+1); B[1,1] = M; B[2,2] = M; for (i=1,n-1, B[i+2,i+2] = 1; B[i+1,i+2] = (-2*a)%M; B[i,i+2] = (a*a)%M); B = B*qflll(B); vector(#B,i,Vec(B[,i])) };

@@ -1334,7 +1334,7 @@ public final class AlgebraicReals {
         private final long[] sumsOfP = new long[Poly.TOP + 2], sumsOfQ = new long[Poly.TOP + 2];
         private final long[] sums = new long[Poly.TOP + 2];
         private final Big product = new Big(), t = new Big();
-        /** How many roots there are, a repeated one counted as often as it comes. */
+        /** What build() makes, and of how many roots, a repeated one counted as often as it comes. */
         private int kind, whole;
         private long lead;
 
@@ -1352,28 +1352,29 @@ public final class AlgebraicReals {
             int bits = bound(), next = 0;
             made.monomial(0);
             // A prime may let roots fall together that are different, and so may many: what they say is proved.
-            for (int least = 1; least <= whole; least = made.deg + 1) {
-                next = collect(made, bits, least, next);
+            // If it is wrong, there are more roots, so that whole turns are enough.
+            for (int turn = 0; turn < whole; turn++) {
+                next = collect(made, bits, true, made.deg + 1, next);
                 tools.tidy(made);
                 if (made.deg == whole) break;
                 if (kind == ITSELF) all.copy(left);
-                else collect(all, bits, whole, 0);
+                else collect(all, bits, false, whole, 0);
                 if (hasEveryRoot()) break;
             }
         }
 
         /**
-         * Puts images by primes from the next one on, with so many roots at least, together into
-         * out: those with each root once, or, for all, as often as it comes. Answers the next prime.
+         * Puts images by primes from the next one on, with each root once or as often as it comes,
+         * and so many of them at least, together into out. Answers the next prime.
          */
-        private int collect(Poly out, int bits, int least, int next) {
+        private int collect(Poly out, int bits, boolean once, int least, int next) {
             int i = next;
             out.deg = -1;
             product.put(1);
             for (; i < ENOUGH && product.size() <= bits; i++) {
                 int m = tools.prime(i);
                 if (!image(m)) continue;
-                if (out != all) single(m);
+                if (once) single(m);
                 if (r.deg < Math.max(least, out.deg)) continue;
                 if (r.deg > out.deg) {
                     // The primes up to now let roots fall together that are different.

@@ -712,6 +712,56 @@ public final class Promises {
         due("28: empty then", x.feed(0, 0, 0, 0, 0), 20);
     }
 
+    /** Roots that are different, but not by primes that the program may use: two or more primes divide what is between them. */
+    private static void nearByPrimes() {
+        AlgebraicReals x = new AlgebraicReals(10);
+        int p = poly(x, -137964938673374887L, -226781085574103877L, 168590303993559080L);
+        due("20: a double root by three primes", x.roots(p), 2);
+        due("10: the first one", x.sign(x.rootOf(p, 0)), -1);
+        due("10: the second one", x.sign(x.rootOf(p, 1)), 1);
+        due("10: their degree", x.about(0, 0), 2);
+        due("10: their places", x.about(1, 1), 1);
+        due("14: which is less", x.compare(0, 1), -1);
+        due("21: above the one, up to the other", x.between(p, 0, 1), 1);
+        due("22: no product", x.parts(p), 1);
+        due("23", x.part(0, 0), 2);
+        due("23", x.part(0, 1), 1);
+        int q = poly(x, -17725541693327384L, 52432149465023510L, 1099733736758600851L);
+        due("22: two factors that stay together long", x.parts(q), 2);
+        x.writePart(0);
+        due("26", written(x), "1040104259*x+159150572");
+        x.writePart(1);
+        due("26", written(x), "1057330289*x-111375922");
+        due("10: a fraction", least(x, x.rootOf(q, 0)), "1040104259*x+159150572");
+        due("10: a fraction", least(x, x.rootOf(q, 1)), "1057330289*x-111375922");
+
+        x = new AlgebraicReals(10);
+        long[] primes = {1040104259, 1057330289, 1042876447, 1054762999, 1062199867, 1047491981, 1048520923, 1065405337};
+        int[] of = new int[4];
+        for (int i = 0; i < 4; i++) of[i] = x.fraction(primes[2 * i] * primes[2 * i + 1], 1);
+        int u = x.root(x.apply(2, of[0], of[1]), 2), v = x.root(x.apply(2, of[2], of[3]), 2);
+        due("3: a sum with long coefficients", x.apply(0, u, v), OPEN);
+        due("3: a quotient, each value of it twice", x.about(x.apply(3, u, v), 0), 2);
+        u = x.root(of[0], 2);
+        v = x.root(of[1], 2);
+        int w = x.apply(0, u, v);
+        due("3: a sum", least(x, w), "x^4-4399442451165570808*x^2+64390110787995401029968024804");
+        x.drop();
+        due("11: common", x.about(x.common(u, v), 0), 4);
+        due("17: within", x.within(u, v), 0);
+        due("17: within both", x.within(u, x.common(u, v)), 1);
+
+        x = new AlgebraicReals(10);
+        int half = x.root(x.fraction(1, 2), 2);
+        due("9: a value", least(x, x.value(poly(x, 0, 1040104259L * 1057330289L), half)), "2*x^2-1209414291765035592581493923137924201");
+        // The product of three primes times the root of 1000000007.
+        int d = x.root(x.fraction(1000000007, 1), 2);
+        due("9: a value with a long coefficient", x.value(poly(x, 0, 121589529L, 0, 1146886404008638124L), d), OPEN);
+        int a = x.root(x.fraction(3, 1), 2), b = x.root(x.fraction(3 + 1040104259L * 1057330289L, 1), 2);
+        due("3: a sum of near ones by primes", x.about(x.apply(0, a, b), 2), 4);
+        due("11: k is 1", x.compare(x.common(a, b), x.apply(0, a, b)), 0);
+    }
+
     public static void main(String[] args) {
         newObject();
         fraction();
@@ -738,6 +788,7 @@ public final class Promises {
         writeLeast();
         at();
         tape();
+        nearByPrimes();
         System.out.println(wrong == 0 ? calls + " answers are as due" : wrong + " answers are not as due");
         if (wrong != 0) System.exit(1);
     }
