@@ -11,6 +11,13 @@ def call(ref,out,name,*args):
     f=getattr(ref,name)
     out.append((' '.join([name]+[('true' if a is True else 'false' if a is False else str(a)) for a in args]), f(*args)))
     return out[-1][1]
+def cut(out):
+    # 512 calls are promised; what was written is read by a call for each byte, and one more
+    had=0
+    for k,(c,e) in enumerate(out):
+        had+=len(e)+1 if c=='text' else 1
+        if had>512+1: return out[:k]
+    return out
 def text(ref,out): out.append(('text',''.join(map(chr,ref.text))))
 def show(ref,out,k):
     call(ref,out,'writeLeast',k); text(ref,out)
@@ -131,7 +138,7 @@ def one():
         elif t<0.99: call(ref,out,'write',h(ref),R.choice([0,1,2,5,12,20,80,81,-1])); text(ref,out)
         else: call(ref,out,'coefficient',hp(ref),R.randint(-1,13),small(True))
         if len(ref.n)>before: show(ref,out,len(ref.n)-1)
-    return out[:512]
+    return cut(out)
 
 def bigl():
     t=R.random()
@@ -210,7 +217,7 @@ def two():
                 call(ref,out,'part',i,0); call(ref,out,'part',i,1); call(ref,out,'writePart',i); text(ref,out)
         else: call(ref,out,'write',h(ref),R.choice([0,1,2,5,12,20,80])); text(ref,out)
         if len(ref.n)>before: show(ref,out,len(ref.n)-1)
-    return out[:512]
+    return cut(out)
 def rel():
     # numbers of one field, with long coefficients: what they make falls into parts
     m=10; ref=Ref(m); out=[('new %d'%m,'ok')]
@@ -221,7 +228,7 @@ def rel():
     if R.random()<.4 and d==4:
         call(ref,out,'coefficient',k,1,0); call(ref,out,'coefficient',k,3,0)
     for i in range(3): call(ref,out,'rootOf',k,i)
-    if not ref.n: return out
+    if not ref.n: return cut(out)
     ps=[]
     for i in range(4):
         q=call(ref,out,'polynomial'); ps.append(q)
@@ -237,7 +244,7 @@ def rel():
         elif t<.95: call(ref,out,'root',a,2)
         else: call(ref,out,'compare',a,b)
         if len(ref.n)>before: show(ref,out,len(ref.n)-1)
-    return out[:512]
+    return cut(out)
 def full():
     m=R.choice([10,4,1]); ref=Ref(m); out=[('new %d'%m,'ok')]
     for i in range(R.choice([97,99,100,101])): call(ref,out,'fraction',R.randint(-9,9),R.randint(1,5))
@@ -261,7 +268,7 @@ def full():
             call(ref,out,'end',R.choice([-1,0,5,60,400])); call(ref,out,'read')
         if ref.n: call(ref,out,'compare',R.randrange(len(ref.n)),len(ref.n)-1)
     for i in range(32): call(ref,out,'polynomial')
-    return out[:512]
+    return cut(out)
 import re
 SRC=open(os.path.join(os.path.dirname(os.path.abspath(__file__)),'..','src','main','java','AlgebraicReals.java')).read()
 PR=list(map(int,re.findall(r'\b1\d{9}\b',SRC[SRC.index('PRIMES = {'):SRC.index('MORE = ')])))
@@ -373,7 +380,7 @@ def hard():
         elif t<.92: call(ref,out,'power',a,R.choice([-2,2,3,4]))
         else: call(ref,out,'compare',a,b)
         if len(ref.n)>before: show(ref,out,before); nums.append(before)
-    return out[:512]
+    return cut(out)
 mode=sys.argv[3] if len(sys.argv)>3 else 'one'
 allout=[]
 for r in range(runs): allout+=(one() if mode=='one' else two() if mode=='two' else rel() if mode=='rel' else hard() if mode=='hard' else full())

@@ -1,63 +1,38 @@
 /** For each promise of the document: ordinary inputs, the edges that it names, and wrong inputs. */
 public final class Promises {
-    private static int wrong = 0;
-    private static int calls = 0;
-
     private static final int NONE = -1, UNKNOWN = -101, OUTSIDE = -102, ZERO = -103;
     private static final int NEGATIVE = -104, OPEN = -105, FULL = -106;
 
     private static void due(String what, long got, long want) {
-        calls++;
-        if (got == want) return;
-        wrong++;
-        System.out.println(what + ": answered " + got + ", due is " + want);
+        Due.due(what, got, want);
     }
 
     private static void due(String what, String got, String want) {
-        calls++;
-        if (got.equals(want)) return;
-        wrong++;
-        System.out.println(what + ": answered " + got + ", due is " + want);
+        Due.due(what, got, want);
     }
 
-    private static String written(AlgebraicReals x) {
-        StringBuilder b = new StringBuilder();
-        for (int i = 0; x.at(i) != NONE; i++) b.append((char) x.at(i));
-        return b.toString();
+    private static String written(Watched x) {
+        return x.text();
     }
 
-    private static String least(AlgebraicReals x, int a) {
-        int n = x.writeLeast(a);
-        String s = written(x);
-        due("length of what is written", n, s.length());
-        return s;
+    private static String least(Watched x, int a) {
+        return x.least(a);
     }
 
-    private static String digits(AlgebraicReals x, int a, int digits) {
-        int n = x.write(a, digits);
-        String s = written(x);
-        due("length of what is written", n, s.length());
-        return s;
+    private static String digits(Watched x, int a, int digits) {
+        return x.digits(a, digits);
     }
 
-    private static void tape(AlgebraicReals x, String text) {
-        StringBuilder b = new StringBuilder(text);
-        while (b.length() % 20 != 0) b.append(' ');
-        for (int k = 0; k < b.length(); k += 20) {
-            int[] v = new int[5];
-            for (int j = 0; j < 20; j++) v[j / 4] = v[j / 4] << 8 | b.charAt(k + j) & 255;
-            x.feed(v[0], v[1], v[2], v[3], v[4]);
-        }
-        x.end(text.length());
+    private static void tape(Watched x, String text) {
+        x.tape(text);
     }
 
-    private static int said(AlgebraicReals x, String text) {
-        tape(x, text);
-        return x.read();
+    private static int said(Watched x, String text) {
+        return x.said(text);
     }
 
     /** What a text that is right says: its least polynomial and place. */
-    private static String says(AlgebraicReals x, String text) {
+    private static String says(Watched x, String text) {
         int a = said(x, text);
         if (a < 0) return "refused " + a;
         String s = least(x, a) + " @" + x.about(a, 1);
@@ -65,44 +40,21 @@ public final class Promises {
         return s;
     }
 
-    /** A polynomial with these coefficients, from x to the power 0 on. */
-    private static int poly(AlgebraicReals x, long... c) {
-        int p = x.polynomial();
-        for (int i = 0; i < c.length; i++) x.coefficient(p, i, c[i]);
-        return p;
-    }
-
-    /** 1: ArithmeticException, 2: IllegalStateException, 3: IllegalArgumentException, 4: another one, 0: none. */
-    private interface Call {
-        void run();
-    }
-
-    private static int thrown(Call c) {
-        try {
-            c.run();
-            return 0;
-        } catch (ArithmeticException e) {
-            return 1;
-        } catch (IllegalStateException e) {
-            return 2;
-        } catch (IllegalArgumentException e) {
-            return 3;
-        } catch (RuntimeException e) {
-            return 4;
-        }
+    private static int poly(Watched x, long... c) {
+        return x.poly(c);
     }
 
     private static void newObject() {
-        AlgebraicReals x = new AlgebraicReals(0);
+        Watched x = new Watched(0);
         int two = x.fraction(2, 1);
         due("1: MOST 0 counts as 1", x.root(two, 2), OPEN);
         due("1: MOST 0 counts as 1", x.turn(1, 5, false), OPEN);
-        due("1: MOST -9 counts as 1", new AlgebraicReals(-9).turn(1, 5, false), OPEN);
-        x = new AlgebraicReals(99);
+        due("1: MOST -9 counts as 1", new Watched(-9).turn(1, 5, false), OPEN);
+        x = new Watched(99);
         two = x.fraction(2, 1);
         due("1: MOST 99 counts as 10", x.root(two, 10), 1);
         due("1: MOST 99 counts as 10", x.root(two, 11), OPEN);
-        x = new AlgebraicReals(3);
+        x = new Watched(3);
         due("1: no numbers", x.drop(), FULL);
         due("1: no numbers", x.sign(0), UNKNOWN);
         due("1: no polynomials", x.roots(0), UNKNOWN);
@@ -115,7 +67,7 @@ public final class Promises {
     }
 
     private static void fraction() {
-        final AlgebraicReals x = new AlgebraicReals(10);
+        Watched x = new Watched(10);
         due("2", x.fraction(6, -4), 0);
         due("2: 6 / -4", least(x, 0), "2*x+3");
         due("2", x.fraction(0, -5), 1);
@@ -126,18 +78,18 @@ public final class Promises {
         due("2: 1", least(x, 3), "x-1");
         due("2", x.fraction(1, Long.MIN_VALUE), 4);
         due("2: 1 / the least long", least(x, 4), "9223372036854775808*x+1");
-        due("2: by 0", thrown(new Call() { public void run() { x.fraction(1, 0); } }), 1);
-        due("2: 0 by 0", thrown(new Call() { public void run() { x.fraction(0, 0); } }), 1);
+        due("2: by 0", x.fraction(1, 0), Watched.ARITHMETIC);
+        due("2: 0 by 0", x.fraction(0, 0), Watched.ARITHMETIC);
         due("2: nothing was made", x.sign(5), UNKNOWN);
         for (int i = 5; i < 100; i++) due("2: handles", x.fraction(i, 1), i);
         due("2: full", x.fraction(1, 1), FULL);
-        due("2: by 0 when full", thrown(new Call() { public void run() { x.fraction(1, 0); } }), 1);
+        due("2: by 0 when full", x.fraction(1, 0), Watched.ARITHMETIC);
         due("2: dropped", x.drop(), 99);
         due("2: again", x.fraction(7, 1), 99);
     }
 
     private static void apply() {
-        AlgebraicReals x = new AlgebraicReals(10);
+        Watched x = new Watched(10);
         int two = x.fraction(2, 1), three = x.fraction(3, 1), zero = x.fraction(0, 1);
         int a = x.root(two, 2), b = x.root(three, 2);
         int sum = x.apply(0, a, b);
@@ -174,22 +126,22 @@ public final class Promises {
     }
 
     private static void plain() {
-        final AlgebraicReals x = new AlgebraicReals(4);
+        Watched x = new Watched(4);
         int two = x.fraction(2, 1), zero = x.fraction(0, 1), a = x.root(two, 3), b = x.root(two, 2);
         due("4: 2 / a", least(x, x.plain(two, a)), "x^3-4");
         due("4: OPEN", x.plain(a, b), OPEN);
         due("4: UNKNOWN", x.plain(a, 9), UNKNOWN);
         due("4: UNKNOWN before 0", x.plain(9, 1), UNKNOWN);
-        due("4: by 0", thrown(new Call() { public void run() { x.plain(2, 1); } }), 1);
+        due("4: by 0", x.plain(2, 1), Watched.ARITHMETIC);
         due("4: 0 / 2", least(x, x.plain(zero, two)), "x");
         for (int i = 0; x.fraction(i, 1) != FULL; i++) { }
         due("4: full", x.plain(two, a), FULL);
         due("4: OPEN before FULL", x.plain(a, b), OPEN);
-        due("4: by 0 before FULL", thrown(new Call() { public void run() { x.plain(2, 1); } }), 1);
+        due("4: by 0 before FULL", x.plain(2, 1), Watched.ARITHMETIC);
     }
 
     private static void power() {
-        AlgebraicReals x = new AlgebraicReals(10);
+        Watched x = new Watched(10);
         int two = x.fraction(2, 1), zero = x.fraction(0, 1), a = x.root(two, 6);
         due("5: a^2", least(x, x.power(a, 2)), "x^3-2");
         due("5: a^3", least(x, x.power(a, 3)), "x^2-2");
@@ -215,7 +167,7 @@ public final class Promises {
     }
 
     private static void root() {
-        AlgebraicReals x = new AlgebraicReals(10);
+        Watched x = new Watched(10);
         int m8 = x.fraction(-8, 1), four = x.fraction(4, 9), zero = x.fraction(0, 1), two = x.fraction(2, 1);
         due("6: 3 of -8", least(x, x.root(m8, 3)), "x+2");
         due("6: 2 of 4/9", least(x, x.root(four, 2)), "3*x-2");
@@ -250,7 +202,7 @@ public final class Promises {
     }
 
     private static void turn() {
-        AlgebraicReals x = new AlgebraicReals(10);
+        Watched x = new Watched(10);
         due("7: c(0)", least(x, x.turn(0, 1, false)), "x-1");
         due("7: c(1/2)", least(x, x.turn(1, 2, false)), "x+1");
         due("7: c(1/3)", least(x, x.turn(1, 3, false)), "2*x+1");
@@ -283,7 +235,7 @@ public final class Promises {
     }
 
     private static void beside() {
-        AlgebraicReals x = new AlgebraicReals(10);
+        Watched x = new Watched(10);
         int a = x.turn(1, 7, false);
         due("8", x.beside(a, 0), 1);
         due("8: at 0", x.compare(1, x.turn(3, 7, false)), 0);
@@ -302,7 +254,7 @@ public final class Promises {
     }
 
     private static void value() {
-        AlgebraicReals x = new AlgebraicReals(10);
+        Watched x = new Watched(10);
         int two = x.fraction(2, 1), a = x.root(two, 3), p = poly(x, 1, 0, 3);
         int v = x.value(p, a);
         due("9: 3 a^2 + 1", least(x, v), "x^3-3*x^2+3*x-109");
@@ -328,7 +280,7 @@ public final class Promises {
     }
 
     private static void rootOf() {
-        AlgebraicReals x = new AlgebraicReals(4);
+        Watched x = new Watched(4);
         // (x - 1)^2 (x^2 - 2) (2 x + 3)
         int p = poly(x, -6, 8, 5, -8, -1, 2);
         due("10", least(x, x.rootOf(p, 0)), "2*x+3");
@@ -358,7 +310,7 @@ public final class Promises {
     }
 
     private static void common() {
-        AlgebraicReals x = new AlgebraicReals(10);
+        Watched x = new Watched(10);
         int two = x.fraction(2, 1), a = x.root(two, 2), b = x.root(x.fraction(3, 1), 2), c = x.root(two, 3);
         due("11", least(x, x.common(a, b)), "x^4-10*x^2+1");
         due("11: root 2 twice: k = 2", least(x, x.common(a, a)), "x^2-18");
@@ -384,7 +336,7 @@ public final class Promises {
     }
 
     private static void read() {
-        AlgebraicReals x = new AlgebraicReals(10);
+        Watched x = new Watched(10);
         due("12", says(x, "1/2+1/3"), "6*x-5 @0");
         due("12: from the left", says(x, "8-4-2"), "x-2 @0");
         due("12: from the left", says(x, "8/4/2"), "x-1 @0");
@@ -453,7 +405,7 @@ public final class Promises {
     }
 
     private static void drop() {
-        AlgebraicReals x = new AlgebraicReals(10);
+        Watched x = new Watched(10);
         due("13: none", x.drop(), FULL);
         x.fraction(1, 1);
         x.fraction(2, 1);
@@ -468,7 +420,7 @@ public final class Promises {
     }
 
     private static void compare() {
-        AlgebraicReals x = new AlgebraicReals(10);
+        Watched x = new Watched(10);
         int a = x.root(x.fraction(2, 1), 2), b = x.fraction(7, 5), c = x.fraction(3, 2);
         due("14", x.compare(a, b), 1);
         due("14", x.compare(b, a), -1);
@@ -489,7 +441,7 @@ public final class Promises {
     }
 
     private static void sign() {
-        AlgebraicReals x = new AlgebraicReals(10);
+        Watched x = new Watched(10);
         due("15", x.sign(x.fraction(-1, 3)), -1);
         due("15", x.sign(x.fraction(0, 3)), 0);
         due("15", x.sign(x.fraction(1, 3)), 1);
@@ -500,7 +452,7 @@ public final class Promises {
     }
 
     private static void about() {
-        AlgebraicReals x = new AlgebraicReals(10);
+        Watched x = new Watched(10);
         int a = said(x, "[4,2]");
         due("16: degree", x.about(a, 0), 4);
         due("16: place", x.about(a, 1), 1);
@@ -513,7 +465,7 @@ public final class Promises {
     }
 
     private static void within() {
-        AlgebraicReals x = new AlgebraicReals(10);
+        Watched x = new Watched(10);
         int a = said(x, "[2,2]"), b = said(x, "[2,3]"), c = said(x, "[2,2]+[2,3]"), d = said(x, "3-[2,8]/5");
         int half = x.fraction(1, 2), e = said(x, "[4,2]"), f = said(x, "[3,2]"), g = said(x, "[6,2]");
         due("17: in root 2 + root 3", x.within(a, c), 1);
@@ -539,7 +491,7 @@ public final class Promises {
     }
 
     private static void polynomials() {
-        AlgebraicReals x = new AlgebraicReals(10);
+        Watched x = new Watched(10);
         for (int i = 0; i < 30; i++) due("18", x.polynomial(), i);
         due("18: full", x.polynomial(), FULL);
         due("18: it is 0", x.roots(29), ZERO);
@@ -557,7 +509,7 @@ public final class Promises {
     }
 
     private static void roots() {
-        AlgebraicReals x = new AlgebraicReals(10);
+        Watched x = new Watched(10);
         due("20: each once", x.roots(poly(x, -6, 8, 5, -8, -1, 2)), 4);
         due("20: none", x.roots(poly(x, 1, 0, 1)), 0);
         due("20: of a number", x.roots(poly(x, -7)), 0);
@@ -570,7 +522,7 @@ public final class Promises {
     }
 
     private static void between() {
-        AlgebraicReals x = new AlgebraicReals(10);
+        Watched x = new Watched(10);
         // Roots: -1.5, -root 2, 1 (twice), root 2.
         int p = poly(x, -6, 8, 5, -8, -1, 2);
         int a = x.fraction(-3, 2), b = said(x, "[2,2]"), c = said(x, "-[2,2]"), d = x.fraction(1, 1), e = said(x, "[2,3]");
@@ -591,7 +543,7 @@ public final class Promises {
     }
 
     private static void parts() {
-        AlgebraicReals x = new AlgebraicReals(1);
+        Watched x = new Watched(1);
         int q = poly(x, -4, 0, 0, 0, 0, 0, 4);
         due("22: 4 x^6 - 4", x.parts(q), 4);
         String all = "";
@@ -636,7 +588,7 @@ public final class Promises {
     }
 
     private static void write() {
-        AlgebraicReals x = new AlgebraicReals(10);
+        Watched x = new Watched(10);
         due("24", digits(x, x.fraction(1, 8), 3), "0.125");
         due("24: down", digits(x, x.fraction(1, 8), 2), "0.12");
         due("24: down", digits(x, x.fraction(-1, 8), 2), "-0.13");
@@ -660,7 +612,7 @@ public final class Promises {
     }
 
     private static void writeLeast() {
-        AlgebraicReals x = new AlgebraicReals(10);
+        Watched x = new Watched(10);
         due("25", least(x, said(x, "0")), "x");
         due("25", least(x, said(x, "-2/3")), "3*x+2");
         due("25", least(x, said(x, "c(2/5)")), "4*x^2+2*x-1");
@@ -672,7 +624,7 @@ public final class Promises {
     }
 
     private static void at() {
-        AlgebraicReals x = new AlgebraicReals(10);
+        Watched x = new Watched(10);
         due("27: nothing yet", x.at(0), NONE);
         x.write(x.fraction(12, 1), 0);
         due("27", x.at(0), '1');
@@ -688,23 +640,23 @@ public final class Promises {
     }
 
     private static void tape() {
-        final AlgebraicReals x = new AlgebraicReals(10);
+        Watched x = new Watched(10);
         // "1+2*3 " and blanks: the highest byte of each number comes first.
         due("28", x.feed(0x312B322A, 0x33202020, 0x20202020, 0x20202020, 0x20202020), 20);
         due("28: read", least(x, x.read()), "x-7");
         for (int i = 1; i <= 15; i++) due("28", x.feed(0x20202020, -1, 0, 0, 0), 20 * i);
-        due("28: more than 300", thrown(new Call() { public void run() { x.feed(0, 0, 0, 0, 0); } }), 2);
-        due("29: below 0", thrown(new Call() { public void run() { x.end(-1); } }), 3);
-        due("29: more than it has", thrown(new Call() { public void run() { x.end(301); } }), 3);
-        due("29: as many", thrown(new Call() { public void run() { x.end(300); } }), 0);
-        due("28: still full", thrown(new Call() { public void run() { x.feed(0, 0, 0, 0, 0); } }), 2);
+        due("28: more than 300", x.feed(0, 0, 0, 0, 0), Watched.STATE);
+        due("29: below 0", x.end(-1), Watched.ARGUMENT);
+        due("29: more than it has", x.end(301), Watched.ARGUMENT);
+        due("29: as many", x.end(300), 0);
+        due("28: still full", x.feed(0, 0, 0, 0, 0), Watched.STATE);
         x.end(281);
-        due("28: by one too many", thrown(new Call() { public void run() { x.feed(0, 0, 0, 0, 0); } }), 2);
+        due("28: by one too many", x.feed(0, 0, 0, 0, 0), Watched.STATE);
         x.end(280);
         due("28: just so", x.feed(1, 1, 1, 1, 1), 300);
         due("28: bytes above 127 are no tokens", x.read(), -1004);
-        due("29: used up", thrown(new Call() { public void run() { x.end(1); } }), 3);
-        due("29: nothing", thrown(new Call() { public void run() { x.end(0); } }), 0);
+        due("29: used up", x.end(1), Watched.ARGUMENT);
+        due("29: nothing", x.end(0), 0);
         due("28: anew", x.feed(0x31313131, 0x31313131, 0x31202020, 0x2B2B2B2B, 0x20202020), 20);
         x.end(9);
         due("29: cut", least(x, x.read()), "x-111111111");
@@ -714,7 +666,7 @@ public final class Promises {
 
     /** Roots that are different, but not by primes that the program may use: two or more primes divide what is between them. */
     private static void nearByPrimes() {
-        AlgebraicReals x = new AlgebraicReals(10);
+        Watched x = new Watched(10);
         int p = poly(x, -137964938673374887L, -226781085574103877L, 168590303993559080L);
         due("20: a double root by three primes", x.roots(p), 2);
         due("10: the first one", x.sign(x.rootOf(p, 0)), -1);
@@ -735,7 +687,7 @@ public final class Promises {
         due("10: a fraction", least(x, x.rootOf(q, 0)), "1040104259*x+159150572");
         due("10: a fraction", least(x, x.rootOf(q, 1)), "1057330289*x-111375922");
 
-        x = new AlgebraicReals(10);
+        x = new Watched(10);
         long[] primes = {1040104259, 1057330289, 1042876447, 1054762999, 1062199867, 1047491981, 1048520923, 1065405337};
         int[] of = new int[4];
         for (int i = 0; i < 4; i++) of[i] = x.fraction(primes[2 * i] * primes[2 * i + 1], 1);
@@ -751,7 +703,7 @@ public final class Promises {
         due("17: within", x.within(u, v), 0);
         due("17: within both", x.within(u, x.common(u, v)), 1);
 
-        x = new AlgebraicReals(10);
+        x = new Watched(10);
         int half = x.root(x.fraction(1, 2), 2);
         due("9: a value", least(x, x.value(poly(x, 0, 1040104259L * 1057330289L), half)), "2*x^2-1209414291765035592581493923137924201");
         // The product of three primes times the root of 1000000007.
@@ -789,7 +741,6 @@ public final class Promises {
         at();
         tape();
         nearByPrimes();
-        System.out.println(wrong == 0 ? calls + " answers are as due" : wrong + " answers are not as due");
-        if (wrong != 0) System.exit(1);
+        Due.done();
     }
 }
