@@ -12,7 +12,7 @@ public final class AlgebraicReals {
     public static final int UNKNOWN = -101, OUTSIDE = -102, ZERO = -103, NEGATIVE = -104, OPEN = -105, FULL = -106;
 
     private static final int NUMBERS = 100, POLYNOMIALS = 30, PLACES = 12, SIZE = 120, STACK = 40;
-    /** Nothing that has to be told apart needs so fine an interval: it lies 2^-9000 apart at least. */
+    /** Nothing that has to be told apart needs so fine an interval: by resultants 2^-11000 is the finest. */
     private static final int FINEST = 16384, COARSEST = 32;
     /** What combine() and its like answer when more is to be done: settle(), takeRoot(), takePlace(), image(). */
     private static final int PENDING = 1, ROOTED = 2, PLACED = 3, VALUED = 4;
