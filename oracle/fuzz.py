@@ -387,7 +387,10 @@ for r in range(runs): allout+=(one() if mode=='one' else two() if mode=='two' el
 if len(sys.argv)>4:
     open(sys.argv[4],'w').write('\n'.join(c+'\t'+str(e) for c,e in allout))
 p=subprocess.run(['java','-cp',os.environ.get('ORACLE','/tmp/oracle'),'Drive','t'],input='\n'.join(c for c,_ in allout)+'\n',capture_output=True,text=True)
-got=p.stdout.split('\n')
+# each answer has a tab and its time behind it; the machine itself now and then says something of its own
+got=[l for l in p.stdout.split('\n') if '\t' in l]
+for l in p.stdout.split('\n'):
+    if l and '\t' not in l: print('not an answer:',l)
 bad=0; worst=(0,''); last=0; total=0
 for k,(c,e) in enumerate(allout):
     if c.startswith('new'): last=k
